@@ -1,0 +1,113 @@
+/** The term CYCLE. */
+public final class CycleTest {
+    public static void main(String[] args) {
+        channelsMustBeTaken();
+        bandwidthsMustFit();
+        orderIsThatOfTheNumbers();
+        oneTooWideLeavesRoomForTheNext();
+        anyIntAsBandwidthWord();
+        onlyTheManagersWordsCount();
+        onlyItsOwnBus();
+        aManagerAlone();
+        Due.finish();
+    }
+
+    private static void heard(String what, SerialBus bus, int... due) {
+        for (int node = 0; node < due.length; node++) {
+            Due.is(what + ": heard by " + node, bus.about(node, Stories.HEARD), due[node]);
+        }
+    }
+
+    private static void channelsMustBeTaken() {
+        for (int channel = 0; channel < 32; channel++) {
+            SerialBus taken = Stories.threeManaged(0, ~(1 << channel));
+            taken.talk(2, channel, 10);
+            taken.tick(1);
+            Due.is("channel " + channel + " is taken", taken.count(5), 1);
+            SerialBus free = Stories.threeManaged(0, 1 << channel);
+            free.talk(2, channel, 10);
+            free.tick(1);
+            Due.is("channel " + channel + " is free", free.count(5), 0);
+        }
+    }
+
+    private static int sentOf(int word6, int bandwidth0, int bandwidth1, int bandwidth2) {
+        SerialBus bus = Stories.threeManaged(word6, 0);
+        bus.talk(0, 1, bandwidth0);
+        bus.talk(1, 1, bandwidth1);
+        bus.talk(2, 1, bandwidth2);
+        bus.tick(1);
+        return bus.count(5);
+    }
+
+    private static void bandwidthsMustFit() {
+        Due.is("just so", sentOf(60, 0, 40, 0), 1);
+        Due.is("one too wide", sentOf(59, 0, 42, 0), 0);
+        Due.is("together just so", sentOf(0, 30, 30, 40), 3);
+        Due.is("together too wide", sentOf(0, 30, 31, 40), 2);
+        Due.is("nothing taken", sentOf(100, 1, 1, 1), 0);
+        Due.is("one taken", sentOf(99, 1, 1, 1), 1);
+    }
+
+    /** NUMBERS of 0, 1, 2 are 0, 2, 1. */
+    private static void orderIsThatOfTheNumbers() {
+        SerialBus bus = Stories.threeManaged(0, 0);
+        bus.talk(0, 0, 20);
+        bus.talk(1, 0, 60);
+        bus.talk(2, 0, 60);
+        bus.tick(1);
+        heard("0 and 2 send", bus, 1, 2, 1);
+    }
+
+    private static void oneTooWideLeavesRoomForTheNext() {
+        SerialBus bus = Stories.threeManaged(50, 0);
+        bus.talk(0, 0, 20);
+        bus.talk(2, 0, 40);
+        bus.talk(1, 0, 30);
+        bus.tick(1);
+        heard("0 and 1 send", bus, 1, 1, 2);
+        SerialBus free = Stories.threeManaged(50, ~1);
+        free.talk(0, 1, 50);
+        free.talk(2, 0, 50);
+        free.tick(1);
+        heard("a free channel takes no bandwidth", free, 1, 1, 0);
+    }
+
+    private static void anyIntAsBandwidthWord() {
+        Due.is("more than is there", sentOf(101, 1, 1, 1), 0);
+        Due.is("the greatest int", sentOf(Integer.MAX_VALUE, 1, 1, 1), 0);
+        Due.is("less than 0", sentOf(-200, 100, 100, 100), 3);
+        Due.is("less than 0, too little", sentOf(-199, 100, 100, 100), 2);
+        Due.is("the least int", sentOf(Integer.MIN_VALUE, 100, 100, 100), 3);
+    }
+
+    private static void onlyTheManagersWordsCount() {
+        SerialBus bus = Stories.threeManaged();
+        bus.ask(1, 1, Stories.WRITE, 6, 0, 0);
+        bus.ask(1, 1, Stories.WRITE, 7, 0, 0);
+        bus.talk(1, 0, 10);
+        bus.tick(8);
+        Due.is("root's words do not count", bus.count(5), 0);
+    }
+
+    private static void onlyItsOwnBus() {
+        SerialBus bus = Stories.threeManaged(0, 0);
+        bus.talk(1, 0, 100);
+        bus.talk(5, 0, 100);
+        bus.tick(1);
+        heard("1 sends", bus, 1, 0, 1, 0, 0, 0);
+        Due.is("5 has no manager", bus.count(5), 1);
+    }
+
+    private static void aManagerAlone() {
+        SerialBus bus = new SerialBus();
+        bus.reset(4, 0, false, true);
+        bus.tick(1);
+        bus.ask(4, 4, Stories.WRITE, 6, 0, 0);
+        bus.ask(4, 4, Stories.WRITE, 7, 0, 0);
+        bus.talk(4, 9, 100);
+        bus.tick(8);
+        Due.is("it sends", bus.count(5), 1);
+        heard("nobody hears it", bus, 0, 0, 0, 0, 0);
+    }
+}

@@ -1,0 +1,90 @@
+/** Promise 4. */
+public final class ResetTest {
+    public static void main(String[] args) {
+        bitsAreTakenFromTheLowestOn();
+        onlySixteenBits();
+        placeIsTheFirstAgain();
+        marksAreSetAndTaken();
+        busIsDirty();
+        refuses();
+        Due.finish();
+    }
+
+    private static SerialBus pair(int bits0, int bits1) {
+        SerialBus bus = Stories.chain(2);
+        bus.reset(0, bits0, false, false);
+        bus.reset(1, bits1, false, false);
+        bus.tick(1);
+        return bus;
+    }
+
+    private static void bitsAreTakenFromTheLowestOn() {
+        for (int bit = 0; bit < 16; bit++) {
+            SerialBus bus = pair(0x5A5A, 0x5A5A ^ 1 << bit);
+            boolean one = (0x5A5A >> bit & 1) == 1;
+            Due.is("root by bit " + bit, bus.about(0, Stories.ROOT), one ? 0 : 1);
+            Due.is("place behind bit " + bit, bus.about(0, Stories.PLACE), (bit + 1) % 16);
+        }
+        SerialBus bus = pair(-1, 0xFFFF);
+        Due.is("higher bits do not count", bus.about(0, Stories.ROOT), -1);
+    }
+
+    private static void onlySixteenBits() {
+        SerialBus bus = pair(0x10000, 0);
+        Due.is("bit 16 is none", bus.count(7), 1);
+        Due.is("place after 24 rounds", bus.about(0, Stories.PLACE), 8);
+        SerialBus other = pair(0x80000000 | 4, 2);
+        Due.is("bit 31 is none", other.about(0, Stories.ROOT), 1);
+    }
+
+    private static void placeIsTheFirstAgain() {
+        SerialBus bus = pair(3, 1);
+        Due.is("place", bus.about(0, Stories.PLACE), 2);
+        bus.reset(0, 3, false, false);
+        Due.is("place of 0 after reset", bus.about(0, Stories.PLACE), 0);
+        Due.is("place of 1 after reset of 0", bus.about(1, Stories.PLACE), 2);
+        bus.tick(1);
+        Due.is("1 against 0, at once", bus.about(0, Stories.PLACE), 1);
+        Due.is("1 goes on", bus.about(1, Stories.PLACE), 3);
+    }
+
+    private static void marksAreSetAndTaken() {
+        SerialBus bus = Stories.chain(3);
+        bus.reset(0, 0, true, true);
+        bus.tick(1);
+        Due.is("hold makes the root", bus.about(2, Stories.ROOT), 0);
+        Due.is("contender is the manager", bus.about(2, Stories.MANAGER), 0);
+        bus.reset(0, 0, true, false);
+        bus.tick(1);
+        Due.is("hold stays", bus.about(2, Stories.ROOT), 0);
+        Due.is("no contender now", bus.about(2, Stories.MANAGER), -1);
+        bus.reset(0, 0, false, true);
+        bus.tick(1);
+        Due.is("no hold now", bus.about(2, Stories.ROOT), 1);
+        Due.is("contender again", bus.about(2, Stories.MANAGER), 0);
+    }
+
+    private static void busIsDirty() {
+        SerialBus bus = Stories.chain(3);
+        bus.plug(4, 0, 5, 0);
+        bus.reset(4, 1, false, false);
+        bus.tick(2);
+        Due.is("no reset without change", bus.count(3), 9);
+        bus.reset(2, 0, false, false);
+        Due.is("number of 0", bus.about(0, Stories.NUMBER), -1);
+        Due.is("number of 4", bus.about(4, Stories.NUMBER), 1);
+        Due.is("no reset before a tick", bus.count(3), 9);
+        bus.tick(1);
+        Due.is("one reset more", bus.count(3), 10);
+        Due.is("number of 0 again", bus.about(0, Stories.NUMBER), 0);
+        bus.tick(1);
+        Due.is("not dirty any more", bus.count(3), 10);
+    }
+
+    private static void refuses() {
+        for (int no : Due.NO_NODES) {
+            Due.failsAndChangesNothing(
+                    "reset of " + no, Due.NO_NODE, Stories::mixed, bus -> bus.reset(no, 5, true, true));
+        }
+    }
+}

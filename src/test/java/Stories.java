@@ -1,0 +1,90 @@
+/** Runs of calls that several tests begin with. */
+final class Stories {
+    static final int NUMBER = 0;
+    static final int PARENT = 1;
+    static final int ROOT = 2;
+    static final int MANAGER = 3;
+    static final int PACKETS = 4;
+    static final int HEARD = 5;
+    static final int PLACE = 6;
+    static final int WAITING = 7;
+    static final int USED = 8;
+
+    static final int READ = 0;
+    static final int WRITE = 1;
+    static final int SWAP = 2;
+
+    static final int WAITS = -1;
+    static final int DONE = 0;
+    static final int RESET = 1;
+    static final int BUSY = 2;
+    static final int NOBODY = 3;
+    static final int LATE = 4;
+
+    private Stories() {}
+
+    /** NODES 0 - 1 - .. - (n - 1), each PORT 1 joined to the next one's PORT 0. */
+    static SerialBus chain(int n) {
+        SerialBus bus = new SerialBus();
+        for (int node = 0; node + 1 < n; node++) {
+            bus.plug(node, 1, node + 1, 0);
+        }
+        return bus;
+    }
+
+    /** 0 - 1 - 2 after its RESET: the ROOT is 1, the NUMBERS of 0, 1, 2 are 0, 2, 1. */
+    static SerialBus three() {
+        SerialBus bus = chain(3);
+        bus.tick(1);
+        return bus;
+    }
+
+    /** As three(), with NODE 0 as MANAGER. */
+    static SerialBus threeManaged() {
+        SerialBus bus = chain(3);
+        bus.reset(0, 0, false, true);
+        bus.tick(1);
+        return bus;
+    }
+
+    /** Gives the MANAGER, NODE 0, WORDS 6 and 7; the CLOCK shows 8 then. */
+    static SerialBus threeManaged(int word6, int word7) {
+        SerialBus bus = threeManaged();
+        bus.ask(0, 0, WRITE, 6, 0, word6);
+        bus.ask(0, 0, WRITE, 7, 0, word7);
+        bus.tick(7);
+        return bus;
+    }
+
+    /** Some of everything: PACKETS that wait, ends of several kinds, talkers, a LOOPED BUS. */
+    static void mixed(SerialBus bus) {
+        bus.plug(0, 1, 1, 0);
+        bus.plug(1, 1, 2, 0);
+        bus.plug(3, 0, 4, 0);
+        bus.plug(5, 0, 6, 0);
+        bus.plug(5, 1, 6, 1);
+        bus.reset(0, 9, false, true);
+        bus.reset(3, 2, true, false);
+        bus.reset(4, 1, true, true);
+        bus.talk(2, 3, 40);
+        bus.talk(3, 31, 100);
+        bus.tick(1);
+        bus.ask(0, 0, WRITE, 6, 0, 20);
+        bus.ask(0, 0, WRITE, 7, 0, 0);
+        bus.ask(4, 4, WRITE, 6, 0, 0);
+        bus.ask(4, 4, WRITE, 7, 0, 0);
+        bus.tick(8);
+        bus.time(5);
+        bus.ask(1, 9, READ, 1, 0, 0);
+        bus.ask(5, 6, READ, 0, 0, 0);
+        bus.tick(5);
+        bus.time(9);
+        bus.ask(1, 2, SWAP, 2, 0, 17);
+        bus.ask(1, 0, READ, 2, 0, 0);
+        bus.ask(2, 1, READ, 3, 0, 0);
+        bus.ask(5, 6, READ, 0, 0, 0);
+        bus.tick(1);
+        bus.ask(2, 0, WRITE, 4, 0, 44);
+        bus.plug(8, 0, 9, 0);
+    }
+}

@@ -1,0 +1,222 @@
+/** The terms RESET, TREE and NUMBERS. */
+public final class TreeTest {
+    public static void main(String[] args) {
+        oneNodeAlone();
+        leavesAskAsTheRoundBegins();
+        numbersGoByPorts();
+        numbersOfADeepTree();
+        numbersOfTheLongestChain();
+        sameBitsAreTakenOn();
+        bitsGoRound();
+        holdForFourRounds();
+        bothHold();
+        lastRound();
+        managerHasTheGreatestNumber();
+        loopedByCables();
+        resetOfABus();
+        Due.finish();
+    }
+
+    private static void told(SerialBus bus, int what, int... due) {
+        for (int node = 0; node < due.length; node++) {
+            Due.is("about(" + node + ", " + what + ")", bus.about(node, what), due[node]);
+        }
+    }
+
+    private static void oneNodeAlone() {
+        SerialBus bus = new SerialBus();
+        bus.reset(7, 5, true, true);
+        bus.tick(1);
+        Due.is("number", bus.about(7, Stories.NUMBER), 0);
+        Due.is("parent", bus.about(7, Stories.PARENT), -1);
+        Due.is("root", bus.about(7, Stories.ROOT), 7);
+        Due.is("manager", bus.about(7, Stories.MANAGER), 7);
+        Due.is("place", bus.about(7, Stories.PLACE), 0);
+        Due.is("manager of another", bus.about(8, Stories.MANAGER), -1);
+    }
+
+    private static void leavesAskAsTheRoundBegins() {
+        SerialBus bus = Stories.three();
+        told(bus, Stories.PARENT, 1, -1, 1);
+        told(bus, Stories.ROOT, 1, 1, 1, 3);
+        told(bus, Stories.PLACE, 0, 0, 0);
+    }
+
+    private static void numbersGoByPorts() {
+        SerialBus bus = new SerialBus();
+        bus.plug(1, 2, 0, 2);
+        bus.plug(1, 1, 3, 1);
+        bus.plug(1, 0, 2, 0);
+        bus.tick(1);
+        told(bus, Stories.NUMBER, 2, 3, 0, 1);
+    }
+
+    /** 3 has 0 (with 5 below), 4 (with 6 and 7 below) and 1; all by PORTS out of order. */
+    private static void numbersOfADeepTree() {
+        SerialBus bus = new SerialBus();
+        bus.plug(3, 0, 4, 2);
+        bus.plug(4, 1, 6, 0);
+        bus.plug(4, 0, 7, 2);
+        bus.plug(3, 1, 1, 1);
+        bus.plug(3, 2, 0, 0);
+        bus.plug(0, 1, 5, 0);
+        bus.tick(1);
+        told(bus, Stories.PARENT, 3, 3, -1, -1, 3, 0, 4, 4);
+        told(bus, Stories.NUMBER, 5, 3, 0, 6, 2, 4, 1, 0);
+    }
+
+    private static void numbersOfTheLongestChain() {
+        SerialBus bus = Stories.chain(12);
+        bus.reset(6, 1, false, false);
+        bus.tick(1);
+        Due.is("root in the middle", bus.about(0, Stories.ROOT), 6);
+        told(bus, Stories.NUMBER, 0, 1, 2, 3, 4, 5, 11, 10, 9, 8, 7, 6);
+        told(bus, Stories.PARENT, 1, 2, 3, 4, 5, 6, -1, 6, 7, 8, 9, 10);
+    }
+
+    private static SerialBus pair(int bits0, int bits1) {
+        SerialBus bus = Stories.chain(2);
+        bus.reset(0, bits0, false, false);
+        bus.reset(1, bits1, false, false);
+        bus.tick(1);
+        return bus;
+    }
+
+    private static void sameBitsAreTakenOn() {
+        SerialBus bus = pair(3, 7);
+        told(bus, Stories.PARENT, 1, -1);
+        told(bus, Stories.NUMBER, 0, 1);
+        told(bus, Stories.PLACE, 3, 3);
+        SerialBus same = pair(0xABCD, 0xABCD);
+        told(same, Stories.ROOT, -1, -1);
+        told(same, Stories.PLACE, 8, 8);
+    }
+
+    private static void bitsGoRound() {
+        SerialBus bus = pair(0x8000, 0);
+        told(bus, Stories.ROOT, 0, 0);
+        told(bus, Stories.PLACE, 0, 0);
+        SerialBus on = pair(1, 2);
+        told(on, Stories.ROOT, 0, 0);
+        on.plug(0, 0, 2, 0);
+        on.tick(1);
+        told(on, Stories.PLACE, 1, 1, 0);
+        on.unplug(0, 0);
+        on.tick(1);
+        told(on, Stories.ROOT, 1, 1, 2);
+        told(on, Stories.PLACE, 2, 2, 0);
+    }
+
+    private static void holdForFourRounds() {
+        SerialBus four = Stories.chain(5);
+        four.reset(0, 0, true, false);
+        four.reset(1, 1, false, false);
+        four.tick(1);
+        told(four, Stories.ROOT, 0, 0, 0, 0, 0);
+        told(four, Stories.PLACE, 0, 0, 0, 0, 0);
+        SerialBus five = Stories.chain(6);
+        five.reset(0, 0, true, false);
+        five.reset(1, 1, false, false);
+        five.tick(1);
+        told(five, Stories.ROOT, 1, 1, 1, 1, 1, 1);
+        told(five, Stories.PLACE, 1, 1, 0, 0, 0, 0);
+    }
+
+    private static void bothHold() {
+        SerialBus bus = Stories.chain(2);
+        bus.reset(0, 0, true, false);
+        bus.reset(1, 0, true, false);
+        bus.tick(1);
+        told(bus, Stories.ROOT, -1, -1);
+        told(bus, Stories.PLACE, 4, 4);
+    }
+
+    /** The middle of a chain of 12, its ends with HOLD, takes BITS in ROUNDS 10 to 24. */
+    private static SerialBus slowChain(int bits) {
+        SerialBus bus = Stories.chain(12);
+        bus.reset(0, 0, true, false);
+        bus.reset(11, 0, true, false);
+        bus.reset(5, bits, false, false);
+        bus.tick(1);
+        return bus;
+    }
+
+    private static void lastRound() {
+        SerialBus inTime = slowChain(1 << 14);
+        Due.is("round 24: root", inTime.about(11, Stories.ROOT), 5);
+        Due.is("round 24: place", inTime.about(5, Stories.PLACE), 15);
+        Due.is("round 24: looped", inTime.count(7), 0);
+        SerialBus tooLate = slowChain(1 << 15);
+        Due.is("round 25: root", tooLate.about(11, Stories.ROOT), -1);
+        Due.is("round 25: place", tooLate.about(5, Stories.PLACE), 15);
+        Due.is("round 25: looped", tooLate.count(7), 1);
+        for (int node = 0; node < 12; node++) {
+            Due.is("no parent", tooLate.about(node, Stories.PARENT), -1);
+            Due.is("no number", tooLate.about(node, Stories.NUMBER), -1);
+        }
+    }
+
+    private static void managerHasTheGreatestNumber() {
+        SerialBus bus = Stories.chain(3);
+        bus.reset(0, 0, false, true);
+        bus.reset(2, 0, false, true);
+        bus.tick(1);
+        told(bus, Stories.MANAGER, 2, 2, 2, -1);
+        bus.reset(1, 0, false, true);
+        bus.tick(1);
+        told(bus, Stories.MANAGER, 1, 1, 1, -1);
+        SerialBus turned = new SerialBus();
+        turned.plug(1, 0, 2, 0);
+        turned.plug(1, 1, 0, 0);
+        turned.reset(0, 0, false, true);
+        turned.reset(2, 0, false, true);
+        turned.tick(1);
+        told(turned, Stories.MANAGER, 0, 0, 0, -1);
+    }
+
+    private static void loopedByCables() {
+        SerialBus ring = Stories.chain(3);
+        ring.plug(2, 1, 0, 0);
+        ring.plug(2, 2, 3, 0);
+        ring.reset(3, 0, false, true);
+        ring.tick(1);
+        told(ring, Stories.PARENT, -1, -1, -1, -1);
+        told(ring, Stories.ROOT, -1, -1, -1, -1);
+        told(ring, Stories.NUMBER, -1, -1, -1, -1);
+        told(ring, Stories.MANAGER, -1, -1, -1, -1);
+        told(ring, Stories.PLACE, 0, 0, 0, 0);
+        ring.unplug(0, 0);
+        ring.reset(1, 1, false, false);
+        ring.tick(1);
+        told(ring, Stories.MANAGER, 3, 3, 3, 3);
+        Due.is("not looped any more", ring.count(7), 0);
+    }
+
+    private static void resetOfABus() {
+        SerialBus bus = Stories.threeManaged(40, 0);
+        bus.talk(1, 2, 10);
+        bus.tick(1);
+        bus.ask(0, 2, Stories.WRITE, 3, 0, 33);
+        bus.ask(1, 2, Stories.WRITE, 4, 0, 44);
+        bus.ask(2, 2, Stories.READ, 0, 0, 0);
+        bus.ask(2, 1, Stories.READ, 0, 0, 0);
+        bus.tick(2);
+        Due.is("2 is used", bus.about(2, Stories.USED), 1);
+        Due.is("2 has packets", bus.about(2, Stories.PACKETS) > 0, true);
+        bus.reset(1, 0, false, false);
+        bus.tick(1);
+        told(bus, Stories.PACKETS, 0, 0, 0);
+        told(bus, Stories.WAITING, 0, 0, 0);
+        told(bus, Stories.USED, 0, 0, 0);
+        told(bus, Stories.HEARD, 1, 0, 1);
+        Due.is("word 6", bus.word(0, 6), 100);
+        Due.is("word 7", bus.word(0, 7), -1);
+        Due.is("other words stay", bus.word(2, 4), 44);
+        Due.is("end of what was sent", bus.ended(2, 0), Stories.RESET);
+        Due.is("end of what was not sent", bus.ended(2, 1), Stories.RESET);
+        bus.ask(0, 0, Stories.WRITE, 6, 0, 0);
+        bus.ask(0, 0, Stories.WRITE, 7, 0, 0);
+        bus.tick(10);
+        Due.is("the talk stays", bus.about(0, Stories.HEARD), 2);
+    }
+}
