@@ -10,35 +10,27 @@ public final class ResetTest {
         Due.finish();
     }
 
-    private static SerialBus pair(int bits0, int bits1) {
-        SerialBus bus = Stories.chain(2);
-        bus.reset(0, bits0, false, false);
-        bus.reset(1, bits1, false, false);
-        bus.tick(1);
-        return bus;
-    }
-
     private static void bitsAreTakenFromTheLowestOn() {
         for (int bit = 0; bit < 16; bit++) {
-            SerialBus bus = pair(0x5A5A, 0x5A5A ^ 1 << bit);
+            SerialBus bus = Stories.pair(0x5A5A, 0x5A5A ^ 1 << bit);
             boolean one = (0x5A5A >> bit & 1) == 1;
             Due.is("root by bit " + bit, bus.about(0, Stories.ROOT), one ? 0 : 1);
             Due.is("place behind bit " + bit, bus.about(0, Stories.PLACE), (bit + 1) % 16);
         }
-        SerialBus bus = pair(-1, 0xFFFF);
+        SerialBus bus = Stories.pair(-1, 0xFFFF);
         Due.is("higher bits do not count", bus.about(0, Stories.ROOT), -1);
     }
 
     private static void onlySixteenBits() {
-        SerialBus bus = pair(0x10000, 0);
+        SerialBus bus = Stories.pair(0x10000, 0);
         Due.is("bit 16 is none", bus.count(7), 1);
         Due.is("place after 24 rounds", bus.about(0, Stories.PLACE), 8);
-        SerialBus other = pair(0x80000000 | 4, 2);
+        SerialBus other = Stories.pair(0x80000000 | 4, 2);
         Due.is("bit 31 is none", other.about(0, Stories.ROOT), 1);
     }
 
     private static void placeIsTheFirstAgain() {
-        SerialBus bus = pair(3, 1);
+        SerialBus bus = Stories.pair(3, 1);
         Due.is("place", bus.about(0, Stories.PLACE), 2);
         bus.reset(0, 3, false, false);
         Due.is("place of 0 after reset", bus.about(0, Stories.PLACE), 0);

@@ -32,6 +32,15 @@ final class Stories {
         return bus;
     }
 
+    /** 0 - 1 with these BITS, after its RESET. */
+    static SerialBus pair(int bits0, int bits1) {
+        SerialBus bus = chain(2);
+        bus.reset(0, bits0, false, false);
+        bus.reset(1, bits1, false, false);
+        bus.tick(1);
+        return bus;
+    }
+
     /** 0 - 1 - 2 after its RESET: the ROOT is 1, the NUMBERS of 0, 1, 2 are 0, 2, 1. */
     static SerialBus three() {
         SerialBus bus = chain(3);

@@ -74,29 +74,21 @@ public final class TreeTest {
         told(bus, Stories.PARENT, 1, 2, 3, 4, 5, 6, -1, 6, 7, 8, 9, 10);
     }
 
-    private static SerialBus pair(int bits0, int bits1) {
-        SerialBus bus = Stories.chain(2);
-        bus.reset(0, bits0, false, false);
-        bus.reset(1, bits1, false, false);
-        bus.tick(1);
-        return bus;
-    }
-
     private static void sameBitsAreTakenOn() {
-        SerialBus bus = pair(3, 7);
+        SerialBus bus = Stories.pair(3, 7);
         told(bus, Stories.PARENT, 1, -1);
         told(bus, Stories.NUMBER, 0, 1);
         told(bus, Stories.PLACE, 3, 3);
-        SerialBus same = pair(0xABCD, 0xABCD);
+        SerialBus same = Stories.pair(0xABCD, 0xABCD);
         told(same, Stories.ROOT, -1, -1);
         told(same, Stories.PLACE, 8, 8);
     }
 
     private static void bitsGoRound() {
-        SerialBus bus = pair(0x8000, 0);
+        SerialBus bus = Stories.pair(0x8000, 0);
         told(bus, Stories.ROOT, 0, 0);
         told(bus, Stories.PLACE, 0, 0);
-        SerialBus on = pair(1, 2);
+        SerialBus on = Stories.pair(1, 2);
         told(on, Stories.ROOT, 0, 0);
         on.plug(0, 0, 2, 0);
         on.tick(1);
