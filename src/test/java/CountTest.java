@@ -4,9 +4,11 @@ public final class CountTest {
         cablesAndBuses();
         clockAndResets();
         sentInSlots();
+        usedTakenFromAll();
         sentInCycles();
         looped();
         elseNone();
+        changesNothing();
         Due.finish();
     }
 
@@ -44,6 +46,22 @@ public final class CountTest {
         Due.is("none in cycles", bus.count(5), 0);
     }
 
+    /** "6: SLOTS in which USED was taken from all": two BUSES have two of them in one TICK. */
+    private static void usedTakenFromAll() {
+        SerialBus bus = new SerialBus();
+        bus.tick(1);
+        bus.ask(3, 3, Stories.READ, 0, 0, 0);
+        bus.ask(8, 8, Stories.READ, 0, 0, 0);
+        bus.tick(1);
+        Due.is("sent", bus.count(6), 0);
+        bus.tick(1);
+        Due.is("taken", bus.count(6), 2);
+        bus.tick(1);
+        Due.is("answered", bus.count(6), 2);
+        bus.tick(50);
+        Due.is("no packets", bus.count(6), 2);
+    }
+
     private static void sentInCycles() {
         SerialBus bus = Stories.threeManaged(0, 0);
         int slots = bus.count(4);
@@ -75,12 +93,22 @@ public final class CountTest {
         Due.is("two", bus.count(7), 2);
     }
 
+    /** "Else -1." */
     private static void elseNone() {
         SerialBus bus = new SerialBus();
         Stories.mixed(bus);
-        int[] others = {-1, 8, Integer.MIN_VALUE, Integer.MAX_VALUE};
-        for (int other : others) {
+        for (int other : Due.outside(0, 7)) {
             Due.is("count(" + other + ")", bus.count(other), -1);
         }
+        Due.is("count(9)", bus.count(9), -1);
+        Due.is("count(7), the last", bus.count(7), 1);
+    }
+
+    private static void changesNothing() {
+        Due.tellsAndChangesNothing("count", Stories::mixed, bus -> {
+            for (int what = -1; what <= 8; what++) {
+                bus.count(what);
+            }
+        });
     }
 }

@@ -9,6 +9,10 @@ public final class CycleTest {
         onlyTheManagersWordsCount();
         onlyItsOwnBus();
         aManagerAlone();
+        noTalkers();
+        noManager();
+        beginsAnewAfterAReset();
+        takenByCompareAndSwap();
         Due.finish();
     }
 
@@ -18,6 +22,7 @@ public final class CycleTest {
         }
     }
 
+    /** "if the MANAGER's WORD 7 has the bit of the channel not set (it is taken)". */
     private static void channelsMustBeTaken() {
         for (int channel = 0; channel < 32; channel++) {
             SerialBus taken = Stories.threeManaged(0, ~(1 << channel));
@@ -40,9 +45,11 @@ public final class CycleTest {
         return bus.count(5);
     }
 
+    /** "together at most 100 less the MANAGER's WORD 6". */
     private static void bandwidthsMustFit() {
         Due.is("just so", sentOf(60, 0, 40, 0), 1);
         Due.is("one too wide", sentOf(59, 0, 42, 0), 0);
+        Due.is("one taken too much", sentOf(61, 0, 40, 0), 0);
         Due.is("together just so", sentOf(0, 30, 30, 40), 3);
         Due.is("together too wide", sentOf(0, 30, 31, 40), 2);
         Due.is("nothing taken", sentOf(100, 1, 1, 1), 0);
@@ -90,6 +97,7 @@ public final class CycleTest {
         Due.is("root's words do not count", bus.count(5), 0);
     }
 
+    /** "all other NODES of the BUS HEARD one more". */
     private static void onlyItsOwnBus() {
         SerialBus bus = Stories.threeManaged(0, 0);
         bus.talk(1, 0, 100);
@@ -109,5 +117,57 @@ public final class CycleTest {
         bus.tick(8);
         Due.is("it sends", bus.count(5), 1);
         heard("nobody hears it", bus, 0, 0, 0, 0, 0);
+    }
+
+    /** Nobody sends in such a CYCLE, and no SLOT is done instead. */
+    private static void noTalkers() {
+        SerialBus bus = Stories.threeManaged(0, 0);
+        bus.ask(1, 9, Stories.READ, 0, 0, 0);
+        bus.tick(1);
+        Due.is("no slot", bus.ended(1, 0), Stories.WAITS);
+        heard("nobody sends", bus, 0, 0, 0);
+        bus.tick(1);
+        Due.is("a slot", bus.ended(1, 0), Stories.NOBODY);
+    }
+
+    /** "the BUS needs a MANAGER (else a SLOT is done instead)". */
+    private static void noManager() {
+        SerialBus bus = Stories.three();
+        bus.ask(1, 1, Stories.WRITE, 6, 0, 0);
+        bus.ask(1, 1, Stories.WRITE, 7, 0, 0);
+        bus.talk(2, 0, 1);
+        bus.tick(7);
+        bus.ask(0, 9, Stories.READ, 0, 0, 0);
+        bus.tick(1);
+        Due.is("no cycle", bus.count(5), 0);
+        Due.is("a slot", bus.ended(0, 0), Stories.NOBODY);
+    }
+
+    /** After a RESET all channels are free and no bandwidth is there, though the TALK stays. */
+    private static void beginsAnewAfterAReset() {
+        SerialBus bus = Stories.threeManaged(0, 0);
+        bus.talk(1, 3, 1);
+        bus.tick(1);
+        Due.is("before", bus.count(5), 1);
+        bus.reset(2, 0, false, false);
+        bus.tick(8);
+        Due.is("after", bus.count(5), 1);
+        bus.ask(0, 0, Stories.WRITE, 6, 0, 99);
+        bus.ask(0, 0, Stories.WRITE, 7, 0, ~(1 << 3));
+        bus.tick(8);
+        Due.is("taken again", bus.count(5), 2);
+    }
+
+    /** NODES 1 and 2 both want channel 4 as they have read it to be free: 1 comes first. */
+    private static void takenByCompareAndSwap() {
+        SerialBus bus = Stories.threeManaged(0, -1);
+        bus.ask(1, 0, Stories.SWAP, 7, -1, ~(1 << 4));
+        bus.ask(2, 0, Stories.SWAP, 7, -1, ~(1 << 4));
+        bus.talk(1, 4, 10);
+        bus.tick(7);
+        Due.is("1 has got it", bus.value(1, 0), -1);
+        Due.is("2 has not", bus.value(2, 0), ~(1 << 4));
+        bus.tick(2);
+        Due.is("1 talks", bus.about(2, Stories.HEARD), 1);
     }
 }

@@ -1,4 +1,5 @@
 import java.util.function.Consumer;
+import java.util.function.IntSupplier;
 
 /** Compares answers with those that are due; every test ends with finish(). */
 final class Due {
@@ -7,12 +8,20 @@ final class Due {
     static final Class<? extends RuntimeException> STATE = IllegalStateException.class;
     static final Class<? extends RuntimeException> UNSUPPORTED = UnsupportedOperationException.class;
 
-    static final int[] NO_NODES = {-1, 12, Integer.MIN_VALUE, Integer.MAX_VALUE};
+    static final int[] NO_NODES = outside(0, 11);
+
+    /** TIME is 9 after Stories.mixed and 20 at first: the ticks just before and then tell it. */
+    private static final int[] LATER = {0, 1, 8, 9, 19, 20, 40};
 
     private static int compared = 0;
     private static int wrong = 0;
 
     private Due() {}
+
+    /** The first numbers on each side that are not allowed, and the last that there are. */
+    static int[] outside(int least, int most) {
+        return new int[] {least - 1, most + 1, Integer.MIN_VALUE, Integer.MAX_VALUE};
+    }
 
     static void is(String what, Object got, Object due) {
         compared++;
@@ -34,7 +43,7 @@ final class Due {
 
     /**
      * Two objects live through the same story, one of them also through the call that throws: no
-     * later answer may tell them apart. Both pictures are taken of new objects, as one object is
+     * later answer may tell them apart. All pictures are taken of new objects, as one object is
      * used for 512 calls only.
      */
     static void failsAndChangesNothing(
@@ -42,31 +51,84 @@ final class Due {
             Class<? extends RuntimeException> due,
             Consumer<SerialBus> story,
             Consumer<SerialBus> call) {
-        for (int ticks = 0; ticks <= 40; ticks += 20) {
+        for (int ticks : LATER) {
             SerialBus spared = new SerialBus();
             SerialBus tried = new SerialBus();
             story.accept(spared);
             story.accept(tried);
             fails(what, due, () -> call.accept(tried));
-            goOn(spared, ticks);
-            goOn(tried, ticks);
-            is(what + " changes nothing, " + ticks + " ticks later", picture(tried), picture(spared));
+            staysTheSame(what, spared, tried, ticks);
         }
     }
 
-    /** What the pictures do not show at once (BITS, TALK, TIME, free PORTS) shows by and by. */
+    /** As above, for a call that only tells. */
+    static void tellsAndChangesNothing(
+            String what, Consumer<SerialBus> story, Consumer<SerialBus> call) {
+        for (int ticks : LATER) {
+            SerialBus spared = new SerialBus();
+            SerialBus asked = new SerialBus();
+            story.accept(spared);
+            story.accept(asked);
+            call.accept(asked);
+            staysTheSame(what, spared, asked, ticks);
+        }
+    }
+
+    private static void staysTheSame(String what, SerialBus spared, SerialBus tried, int ticks) {
+        goOn(spared, ticks);
+        goOn(tried, ticks);
+        String when = what + " changes nothing, " + ticks + " ticks later";
+        is(when, picture(tried), picture(spared));
+        is(when + ", ports and values", portsAndValues(tried), portsAndValues(spared));
+    }
+
+    /** What the pictures do not show at once (BITS, TALK, TIME) shows by and by. */
     private static void goOn(SerialBus bus, int ticks) {
         if (ticks == 0) {
             return;
         }
+        askIfThereIsRoom(bus, 5);
+        askIfThereIsRoom(bus, 7);
+        if (ticks < 20) {
+            bus.tick(ticks);
+        } else {
+            bus.tick(ticks / 2);
+            bus.reset(4, 21, true, false);
+            bus.tick(ticks - ticks / 2);
+        }
+    }
+
+    private static void askIfThereIsRoom(SerialBus bus, int node) {
         try {
-            bus.ask(7, 7, 0, 0, 0, 0);
+            bus.ask(node, node, 0, 0, 0, 0);
         } catch (IllegalStateException | UnsupportedOperationException e) {
             // The story has filled the node: then there is nothing to add.
         }
-        bus.tick(ticks / 2);
-        bus.reset(4, 21, true, false);
-        bus.tick(ticks / 2);
+    }
+
+    /** Takes all CABLES and ended REQUESTS away, so it comes last. */
+    private static String portsAndValues(SerialBus bus) {
+        StringBuilder text = new StringBuilder();
+        for (int node = 0; node < 12; node++) {
+            int a = node;
+            for (int label = 0; label < 4; label++) {
+                int l = label;
+                text.append(answer(() -> bus.value(a, l))).append(' ');
+            }
+            for (int port = 0; port < 3; port++) {
+                int p = port;
+                text.append(answer(() -> bus.unplug(a, p))).append(' ');
+            }
+        }
+        return text.toString();
+    }
+
+    static String answer(IntSupplier call) {
+        try {
+            return String.valueOf(call.getAsInt());
+        } catch (RuntimeException e) {
+            return e.getClass().getSimpleName();
+        }
     }
 
     static String picture(SerialBus bus) {
@@ -83,18 +145,12 @@ final class Due {
                 text.append(bus.word(node, word)).append(' ');
             }
             for (int label = 0; label < 4; label++) {
-                text.append(end(bus, node, label)).append(' ');
+                int a = node;
+                int l = label;
+                text.append(answer(() -> bus.ended(a, l))).append(' ');
             }
         }
         return text.toString();
-    }
-
-    private static String end(SerialBus bus, int node, int label) {
-        try {
-            return String.valueOf(bus.ended(node, label));
-        } catch (IllegalStateException e) {
-            return "free";
-        }
     }
 
     static void finish() {

@@ -2,8 +2,12 @@
 public final class EndedTest {
     public static void main(String[] args) {
         tellsTheEnds();
+        tellsOfEveryLabel();
         tellsAgainAndAgain();
-        refuses();
+        isKeptUntilANewOneComes();
+        changesNothing();
+        refusesLabels();
+        refusesFreeLabels();
         Due.finish();
     }
 
@@ -29,22 +33,16 @@ public final class EndedTest {
         }
         bus.tick(4);
         Due.is("late", bus.ended(2, 3), 4);
-        Due.is("busy", busy().ended(1, 1), 2);
+        Due.is("busy", Stories.busy().ended(1, 1), 2);
     }
 
-    /** NODE 0's QUEUE stays full, by REQUESTS to itself, until NODE 1 was BUSY four times. */
-    private static SerialBus busy() {
-        SerialBus bus = Stories.three();
-        bus.time(60);
+    /** "l is not 0 .. 3" is refused, these are not: each tells of its own REQUEST. */
+    private static void tellsOfEveryLabel() {
+        SerialBus bus = Stories.fourEnds();
+        int[] due = {Stories.DONE, Stories.NOBODY, Stories.LATE, Stories.WAITS};
         for (int label = 0; label < 4; label++) {
-            bus.ask(0, 0, Stories.READ, 0, 0, 0);
+            Due.is("label " + label, bus.ended(0, label), due[label]);
         }
-        for (int label = 0; label < 2; label++) {
-            bus.ask(1, 0, Stories.READ, 0, 0, 0);
-            bus.ask(2, 0, Stories.READ, 0, 0, 0);
-        }
-        bus.tick(17);
-        return bus;
     }
 
     private static void tellsAgainAndAgain() {
@@ -59,17 +57,47 @@ public final class EndedTest {
         Due.is("and after a reset", bus.ended(3, 0), 1);
     }
 
-    private static void refuses() {
-        for (int no : Due.NO_NODES) {
-            nothing("ended of " + no, Due.NO_NODE, no, 0);
-            nothing("ended: no node before no label", Due.NO_NODE, no, 4);
-        }
-        int[] noLabels = {-1, 4, Integer.MIN_VALUE, Integer.MAX_VALUE};
-        for (int no : noLabels) {
+    /** "An ended REQUEST is kept at its LABEL until value takes it or a new one comes there". */
+    private static void isKeptUntilANewOneComes() {
+        SerialBus bus = Stories.fourEnds();
+        bus.ask(0, 1, Stories.READ, 0, 0, 0);
+        Due.is("a new one at label 0", bus.ended(0, 0), Stories.WAITS);
+        Due.is("label 1 is kept", bus.ended(0, 1), Stories.NOBODY);
+        Due.is("label 2 is kept", bus.ended(0, 2), Stories.LATE);
+        bus.ask(0, 1, Stories.READ, 0, 0, 0);
+        Due.is("a new one at label 1", bus.ended(0, 1), Stories.WAITS);
+        Due.is("label 2 is kept still", bus.ended(0, 2), Stories.LATE);
+    }
+
+    private static void changesNothing() {
+        Due.tellsAndChangesNothing("ended", Stories::mixed, bus -> {
+            bus.ended(1, 0);
+            bus.ended(2, 0);
+            bus.ended(4, 1);
+            bus.ended(5, 0);
+        });
+    }
+
+    /** "IllegalArgumentException: l is not 0 .. 3." */
+    private static void refusesLabels() {
+        for (int no : Due.outside(0, 3)) {
             nothing("ended at label " + no, Due.ARGUMENT, 1, no);
+            nothing("ended at label " + no + " of a node that never asked", Due.ARGUMENT, 10, no);
+            nothing("ended at label " + no + " of the first node", Due.ARGUMENT, 0, no);
+            nothing("ended at label " + no + " of the last node", Due.ARGUMENT, 11, no);
         }
+    }
+
+    /** "IllegalStateException: the LABEL is free." */
+    private static void refusesFreeLabels() {
         nothing("ended of a free label", Due.STATE, 1, 3);
         nothing("ended of a node that never asked", Due.STATE, 10, 0);
+        Due.failsAndChangesNothing("ended after value", Due.STATE, EndedTest::taken, bus -> bus.ended(0, 0));
+    }
+
+    private static void taken(SerialBus bus) {
+        Stories.mixed(bus);
+        bus.value(0, 0);
     }
 
     private static void nothing(String what, Class<? extends RuntimeException> due, int a, int l) {

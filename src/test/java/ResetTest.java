@@ -6,7 +6,9 @@ public final class ResetTest {
         placeIsTheFirstAgain();
         marksAreSetAndTaken();
         busIsDirty();
-        refuses();
+        changesNothingElseBeforeTheTick();
+        theLastOfSeveralCounts();
+        refusesNodes();
         Due.finish();
     }
 
@@ -21,7 +23,10 @@ public final class ResetTest {
         Due.is("higher bits do not count", bus.about(0, Stories.ROOT), -1);
     }
 
+    /** "the 16 low bits": bit 15 is the last. */
     private static void onlySixteenBits() {
+        SerialBus last = Stories.pair(0x8000, 0);
+        Due.is("bit 15 is one", last.about(1, Stories.ROOT), 0);
         SerialBus bus = Stories.pair(0x10000, 0);
         Due.is("bit 16 is none", bus.count(7), 1);
         Due.is("place after 24 rounds", bus.about(0, Stories.PLACE), 8);
@@ -29,6 +34,7 @@ public final class ResetTest {
         Due.is("bit 31 is none", other.about(0, Stories.ROOT), 1);
     }
 
+    /** "and its place the first". */
     private static void placeIsTheFirstAgain() {
         SerialBus bus = Stories.pair(3, 1);
         Due.is("place", bus.about(0, Stories.PLACE), 2);
@@ -73,7 +79,45 @@ public final class ResetTest {
         Due.is("not dirty any more", bus.count(3), 10);
     }
 
-    private static void refuses() {
+    /** "its BUS is DIRTY": only the NUMBERS go at once, all else in the RESET. */
+    private static void changesNothingElseBeforeTheTick() {
+        SerialBus bus = Stories.threeManaged(40, 0);
+        bus.ask(0, 1, Stories.READ, 0, 0, 0);
+        bus.ask(1, 2, Stories.READ, 0, 0, 0);
+        bus.tick(2);
+        String before = told(bus);
+        bus.reset(1, 0xFFFF, true, true);
+        Due.is("before the tick", told(bus), before);
+        Due.is("but the number", bus.about(1, Stories.NUMBER), -1);
+        bus.tick(1);
+        Due.is("in the tick the packets go", bus.about(2, Stories.PACKETS), 0);
+        Due.is("and the manager is found", bus.about(0, Stories.MANAGER), 1);
+    }
+
+    private static String told(SerialBus bus) {
+        StringBuilder text = new StringBuilder();
+        for (int node = 0; node < 3; node++) {
+            for (int what = Stories.PARENT; what <= Stories.USED; what++) {
+                text.append(bus.about(node, what)).append(' ');
+            }
+            text.append(bus.word(node, 6)).append(' ').append(bus.word(node, 7)).append(' ');
+        }
+        return text.append(bus.ended(0, 0)).append(' ').append(bus.ended(1, 0)).toString();
+    }
+
+    private static void theLastOfSeveralCounts() {
+        SerialBus bus = Stories.chain(2);
+        bus.reset(0, 1, true, true);
+        bus.reset(1, 2, false, false);
+        bus.reset(0, 0, false, false);
+        bus.tick(1);
+        Due.is("one reset for all of them", bus.count(3), 11);
+        Due.is("bits and hold are the last ones", bus.about(0, Stories.ROOT), 1);
+        Due.is("rounds", bus.about(0, Stories.PLACE), 2);
+        Due.is("no contender", bus.about(0, Stories.MANAGER), -1);
+    }
+
+    private static void refusesNodes() {
         for (int no : Due.NO_NODES) {
             Due.failsAndChangesNothing(
                     "reset of " + no, Due.NO_NODE, Stories::mixed, bus -> bus.reset(no, 5, true, true));

@@ -1,17 +1,13 @@
-/** The terms SLOT, PACKETS and REQUESTS. */
+/** The terms SLOT and PACKETS; BusyTest and LateTest have the rest of them. */
 public final class SlotTest {
     public static void main(String[] args) {
         turnsAreFair();
+        nothingToSend();
         usedIsTakenOnlyIfNeeded();
+        usedIsTakenInItsOwnBus();
         toItself();
-        toItselfWithAFullQueue();
-        busyFourTimes();
-        theFourthTimeMayDo();
-        busyGoesBehindAllOthers();
         nobody();
-        lateTakesThePacketFromTheQueue();
-        lateLeavesTheAnswer();
-        theAnswerOfAnOldRequest();
+        nobodyThoughFull();
         Due.finish();
     }
 
@@ -38,6 +34,16 @@ public final class SlotTest {
         Due.is("used taken once", bus.count(6), 1);
     }
 
+    /** "but some NODE has PACKETS": if none has, nothing is done. */
+    private static void nothingToSend() {
+        SerialBus bus = Stories.three();
+        bus.tick(1);
+        String[] after = Due.picture(bus).split(" ");
+        after[2] = "1";
+        String before = Due.picture(Stories.three()).trim();
+        Due.is("all but the clock", String.join(" ", after), before);
+    }
+
     private static void usedIsTakenOnlyIfNeeded() {
         SerialBus bus = Stories.three();
         bus.ask(1, 9, Stories.READ, 0, 0, 0);
@@ -56,6 +62,17 @@ public final class SlotTest {
         Due.is("now 1 sends", bus.count(4), 3);
     }
 
+    /** A SLOT is one BUS's: that of 7 takes nothing from NODE 1. */
+    private static void usedIsTakenInItsOwnBus() {
+        SerialBus bus = Stories.three();
+        bus.ask(1, 9, Stories.READ, 0, 0, 0);
+        bus.ask(7, 7, Stories.READ, 0, 0, 0);
+        bus.tick(2);
+        Due.is("7 is used no more", bus.about(7, Stories.USED), 0);
+        Due.is("1 is", bus.about(1, Stories.USED), 1);
+        Due.is("taken once", bus.count(6), 1);
+    }
+
     private static void toItself() {
         SerialBus bus = Stories.three();
         bus.ask(2, 2, Stories.SWAP, 1, 0, 5);
@@ -68,76 +85,6 @@ public final class SlotTest {
         bus.tick(1);
         Due.is("value", bus.value(2, 0), 0);
         Due.is("sent", bus.count(4), 2);
-    }
-
-    private static void toItselfWithAFullQueue() {
-        SerialBus bus = full(0);
-        Due.is("six packets", bus.about(0, Stories.PACKETS), 6);
-        bus.tick(1);
-        Due.is("still six", bus.about(0, Stories.PACKETS), 6);
-        Due.is("the work is done all the same", bus.word(0, 0), 1);
-    }
-
-    /**
-     * NODE 0's QUEUE is full after two SLOTS: four REQUESTS of its own, the last of them to the
-     * NODE given, and two ANSWERS. NODES 1 and 2 have another REQUEST to it.
-     */
-    private static SerialBus full(int last) {
-        SerialBus bus = Stories.three();
-        bus.time(60);
-        for (int label = 0; label < 4; label++) {
-            bus.ask(0, label < 3 ? 0 : last, Stories.WRITE, label, 0, 1);
-        }
-        for (int label = 0; label < 2; label++) {
-            bus.ask(1, 0, Stories.WRITE, 4, 0, 11 + label);
-            bus.ask(2, 0, Stories.WRITE, 5, 0, 21 + label);
-        }
-        bus.tick(2);
-        return bus;
-    }
-
-    private static void busyFourTimes() {
-        SerialBus bus = full(0);
-        bus.tick(14);
-        Due.is("1 waits", bus.ended(1, 1), Stories.WAITS);
-        Due.is("1's packet is in its queue", bus.about(1, Stories.PACKETS), 1);
-        Due.is("sent, busy or not", bus.count(4), 12);
-        bus.tick(1);
-        Due.is("1 is busy", bus.ended(1, 1), Stories.BUSY);
-        Due.is("1's packet is gone", bus.about(1, Stories.PACKETS), 0);
-        Due.is("2 waits", bus.ended(2, 1), Stories.WAITS);
-        bus.tick(1);
-        Due.is("2 is busy", bus.ended(2, 1), Stories.BUSY);
-        Due.is("sent in all", bus.count(4), 14);
-        Due.is("no work was done", bus.word(0, 4), 11);
-        Due.is("the first waits still", bus.ended(1, 0), Stories.WAITS);
-        bus.tick(1);
-        Due.is("the first is answered", bus.ended(1, 0), Stories.DONE);
-    }
-
-    private static void theFourthTimeMayDo() {
-        SerialBus bus = full(9);
-        bus.tick(13);
-        Due.is("0 has room", bus.about(0, Stories.PACKETS), 5);
-        bus.tick(2);
-        Due.is("1's work is done", bus.word(0, 4), 12);
-        Due.is("1 waits for the answer", bus.ended(1, 1), Stories.WAITS);
-        Due.is("1's packet is sent", bus.about(1, Stories.PACKETS), 0);
-        bus.tick(1);
-        Due.is("2 is busy", bus.ended(2, 1), Stories.BUSY);
-        Due.is("2's work is not done", bus.word(0, 5), 21);
-    }
-
-    private static void busyGoesBehindAllOthers() {
-        SerialBus bus = full(0);
-        bus.ask(1, 9, Stories.READ, 0, 0, 0);
-        bus.tick(3);
-        Due.is("busy at first", bus.ended(1, 1), Stories.WAITS);
-        Due.is("both are in the queue", bus.about(1, Stories.PACKETS), 2);
-        Due.is("the next has not been sent", bus.ended(1, 2), Stories.WAITS);
-        bus.tick(4);
-        Due.is("the next comes first", bus.ended(1, 2), Stories.NOBODY);
-        Due.is("the busy one is there", bus.about(1, Stories.PACKETS), 1);
     }
 
     private static void nobody() {
@@ -158,49 +105,15 @@ public final class SlotTest {
         Due.is("now it is of the bus", bus.word(3, 0), 5);
     }
 
-    private static void lateTakesThePacketFromTheQueue() {
-        SerialBus bus = Stories.three();
-        bus.ask(0, 2, Stories.WRITE, 0, 0, 1);
-        bus.time(2);
-        bus.ask(0, 2, Stories.WRITE, 0, 0, 2);
-        bus.time(20);
-        bus.ask(0, 2, Stories.WRITE, 0, 0, 3);
-        bus.tick(2);
-        Due.is("late", bus.ended(0, 1), Stories.LATE);
-        Due.is("the others wait or are done", bus.ended(0, 0), Stories.DONE);
-        Due.is("one packet is left", bus.about(0, Stories.PACKETS), 1);
-        bus.tick(2);
-        Due.is("the third was sent next", bus.word(2, 0), 3);
-        bus.tick(10);
-        Due.is("and done", bus.ended(0, 2), Stories.DONE);
-        Due.is("four packets in all", bus.count(4), 4);
-    }
-
-    private static void lateLeavesTheAnswer() {
+    /** "To a NODE of another BUS: it ends with NOBODY", at once, though that one's QUEUE is full. */
+    private static void nobodyThoughFull() {
         SerialBus bus = new SerialBus();
+        Stories.fullOfFour(bus);
+        bus.ask(9, 0, Stories.WRITE, 4, 0, 9);
         bus.tick(1);
-        bus.time(2);
-        bus.ask(0, 0, Stories.WRITE, 0, 0, 1);
-        bus.tick(2);
-        Due.is("late", bus.ended(0, 0), Stories.LATE);
-        Due.is("the answer stays", bus.about(0, Stories.PACKETS), 1);
-        bus.tick(1);
-        Due.is("it is sent", bus.count(4), 2);
-        Due.is("late is late", bus.ended(0, 0), Stories.LATE);
-    }
-
-    private static void theAnswerOfAnOldRequest() {
-        SerialBus bus = new SerialBus();
-        bus.tick(1);
-        bus.time(2);
-        bus.ask(0, 0, Stories.WRITE, 0, 0, 1);
-        bus.tick(2);
-        bus.time(20);
-        Due.is("the same label", bus.ask(0, 0, Stories.READ, 0, 0, 0), 0);
-        bus.tick(1);
-        Due.is("the old answer was sent", bus.count(4), 2);
-        Due.is("it does not end the new one", bus.ended(0, 0), Stories.WAITS);
-        bus.tick(4);
-        Due.is("the new one's value", bus.value(0, 0), 1);
+        Due.is("0 is full", bus.about(0, Stories.PACKETS), 6);
+        Due.is("9 has nobody", bus.ended(9, 0), Stories.NOBODY);
+        Due.is("9 has no packets", bus.about(9, Stories.PACKETS), 0);
+        Due.is("no work", bus.word(0, 4), 0);
     }
 }

@@ -96,4 +96,71 @@ final class Stories {
         bus.ask(2, 0, WRITE, 4, 0, 44);
         bus.plug(8, 0, 9, 0);
     }
+
+    /** As mixed(); all four LABELS of NODE 7, which is alone, wait. */
+    static void allWait(SerialBus bus) {
+        mixed(bus);
+        for (int label = 0; label < 4; label++) {
+            bus.ask(7, 7, WRITE, label, 0, 1);
+        }
+    }
+
+    /** NODE 0's QUEUE is full: some REQUESTS of its own to itself, and ANSWERS to NODES 1 .. 3. */
+    static void fullOfThree(SerialBus bus) {
+        crowded(bus, 3, 3);
+    }
+
+    static void fullOfFour(SerialBus bus) {
+        crowded(bus, 4, 2);
+    }
+
+    /**
+     * A chain 0 - .. - 4 with 4 as ROOT: NODE 0 has these many own REQUESTS and, after as many
+     * SLOTS, ANSWERS; it has not sent yet, as its NUMBER is the least.
+     */
+    static void crowded(SerialBus bus, int requests, int answers) {
+        for (int node = 0; node < 4; node++) {
+            bus.plug(node, 1, node + 1, 0);
+        }
+        bus.reset(4, 0, true, false);
+        bus.tick(1);
+        bus.time(60);
+        for (int node = 1; node <= answers; node++) {
+            bus.ask(node, 0, READ, 0, 0, 0);
+        }
+        for (int label = 0; label < requests; label++) {
+            bus.ask(0, 0, WRITE, 0, 0, label);
+        }
+        if (answers > 0) {
+            bus.tick(answers);
+        }
+    }
+
+    /** NODE 0's LABELS 0 .. 3 are DONE with value 100, NOBODY, LATE, and wait. */
+    static SerialBus fourEnds() {
+        SerialBus bus = three();
+        bus.ask(0, 2, READ, 6, 0, 0);
+        bus.ask(0, 9, READ, 0, 0, 0);
+        bus.time(2);
+        bus.ask(0, 1, READ, 0, 0, 0);
+        bus.time(60);
+        bus.ask(0, 2, READ, 0, 0, 0);
+        bus.tick(4);
+        return bus;
+    }
+
+    /** NODE 1's LABEL 1 is BUSY: 0's QUEUE is full, by REQUESTS to itself, until the 4th time. */
+    static SerialBus busy() {
+        SerialBus bus = three();
+        bus.time(60);
+        for (int label = 0; label < 4; label++) {
+            bus.ask(0, 0, READ, 0, 0, 0);
+        }
+        for (int label = 0; label < 2; label++) {
+            bus.ask(1, 0, READ, 0, 0, 0);
+            bus.ask(2, 0, READ, 0, 0, 0);
+        }
+        bus.tick(17);
+        return bus;
+    }
 }

@@ -2,9 +2,12 @@
 public final class TickTest {
     public static void main(String[] args) {
         answersTheClock();
+        everyNumberFromOneToFifty();
+        manyTicksAreAsMany();
         aDirtyBusIsResetFirst();
         aLoopedBusDoesNothing();
         cyclesAndSlots();
+        everyEighthTickIsACycle();
         busesAreApart();
         requestsComeToTheirTimeLast();
         refuses();
@@ -20,6 +23,32 @@ public final class TickTest {
         Due.is("every node alone is reset once", bus.count(3), 12);
     }
 
+    /** "n TICKS, 1 .. 50". */
+    private static void everyNumberFromOneToFifty() {
+        SerialBus bus = new SerialBus();
+        int clock = 0;
+        for (int n = 1; n <= 50; n++) {
+            clock += n;
+            Due.is("tick(" + n + ")", bus.tick(n), clock);
+            Due.is("the clock", bus.count(2), clock);
+        }
+    }
+
+    private static void manyTicksAreAsMany() {
+        for (int n = 1; n <= 50; n++) {
+            SerialBus once = new SerialBus();
+            SerialBus oneByOne = new SerialBus();
+            Stories.allWait(once);
+            Stories.allWait(oneByOne);
+            once.tick(n);
+            for (int tick = 0; tick < n; tick++) {
+                oneByOne.tick(1);
+            }
+            Due.is("tick(" + n + ")", Due.picture(once), Due.picture(oneByOne));
+        }
+    }
+
+    /** "1 The BUS is DIRTY", though it is the time of a CYCLE. */
     private static void aDirtyBusIsResetFirst() {
         SerialBus bus = Stories.threeManaged(0, 0);
         bus.talk(1, 3, 10);
@@ -33,6 +62,7 @@ public final class TickTest {
         Due.is("resets", bus.count(3), 11);
     }
 
+    /** "2 It is LOOPED: nothing", at the time of a CYCLE, too. */
     private static void aLoopedBusDoesNothing() {
         SerialBus bus = new SerialBus();
         bus.plug(0, 0, 1, 0);
@@ -62,6 +92,23 @@ public final class TickTest {
         unmanaged.ask(0, 1, Stories.READ, 0, 0, 0);
         unmanaged.tick(1);
         Due.is("no manager: a slot instead", unmanaged.count(4), 1);
+    }
+
+    /** "3 The CLOCK is a multiple of 8: CYCLE. 4 else SLOT." */
+    private static void everyEighthTickIsACycle() {
+        SerialBus bus = Stories.threeManaged(0, 0);
+        bus.talk(2, 0, 1);
+        for (int clock = 8; clock <= 40; clock++) {
+            if (bus.about(0, Stories.PACKETS) == 0) {
+                bus.ask(0, 9, Stories.READ, 0, 0, 0);
+            }
+            int cycles = bus.count(5);
+            int slots = bus.count(4) + bus.count(6);
+            bus.tick(1);
+            int cycle = clock % 8 == 0 ? 1 : 0;
+            Due.is("cycle at " + clock, bus.count(5) - cycles, cycle);
+            Due.is("slot at " + clock, bus.count(4) + bus.count(6) - slots, 1 - cycle);
+        }
     }
 
     private static void busesAreApart() {
@@ -98,10 +145,14 @@ public final class TickTest {
     }
 
     private static void refuses() {
-        int[] noTicks = {0, -1, 51, Integer.MIN_VALUE, Integer.MAX_VALUE};
-        for (int no : noTicks) {
-            Due.failsAndChangesNothing(
-                    "tick(" + no + ")", Due.ARGUMENT, Stories::mixed, bus -> bus.tick(no));
+        for (int no : Due.outside(1, 50)) {
+            nothing(no);
         }
+        nothing(-1);
+    }
+
+    private static void nothing(int no) {
+        Due.failsAndChangesNothing(
+                "tick(" + no + ")", Due.ARGUMENT, Stories::mixed, bus -> bus.tick(no));
     }
 }

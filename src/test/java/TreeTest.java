@@ -1,4 +1,4 @@
-/** The terms RESET, TREE and NUMBERS. */
+/** The terms TREE and NUMBERS. */
 public final class TreeTest {
     public static void main(String[] args) {
         oneNodeAlone();
@@ -8,12 +8,14 @@ public final class TreeTest {
         numbersOfTheLongestChain();
         sameBitsAreTakenOn();
         bitsGoRound();
+        theFirstBitComesBehindTheLast();
         holdForFourRounds();
         bothHold();
         lastRound();
         managerHasTheGreatestNumber();
         loopedByCables();
-        resetOfABus();
+        loopedByTwoCables();
+        loopedByTheSameBits();
         Due.finish();
     }
 
@@ -23,6 +25,7 @@ public final class TreeTest {
         }
     }
 
+    /** "It is over if no CABLE is open", before the first ROUND. */
     private static void oneNodeAlone() {
         SerialBus bus = new SerialBus();
         bus.reset(7, 5, true, true);
@@ -99,6 +102,17 @@ public final class TreeTest {
         told(on, Stories.PLACE, 2, 2, 0);
     }
 
+    /** NODE 0 takes its last BIT and then its first, which alone is different. */
+    private static void theFirstBitComesBehindTheLast() {
+        SerialBus bus = Stories.pair(0x4001, 0x0001);
+        told(bus, Stories.PLACE, 15, 15);
+        bus.reset(1, 0, false, false);
+        bus.tick(1);
+        told(bus, Stories.ROOT, 0, 0);
+        told(bus, Stories.PLACE, 1, 2);
+    }
+
+    /** "and no HOLD (or the ROUND is above 4)": 0 would be asked in ROUND 4, and in ROUND 5. */
     private static void holdForFourRounds() {
         SerialBus four = Stories.chain(5);
         four.reset(0, 0, true, false);
@@ -123,7 +137,7 @@ public final class TreeTest {
         told(bus, Stories.PLACE, 4, 4);
     }
 
-    /** The middle of a chain of 12, its ends with HOLD, takes BITS in ROUNDS 10 to 24. */
+    /** "or after 24 ROUNDS": the middle of a chain of 12, its ends with HOLD, takes BITS in ROUNDS 10 to 24. */
     private static SerialBus slowChain(int bits) {
         SerialBus bus = Stories.chain(12);
         bus.reset(0, 0, true, false);
@@ -166,6 +180,42 @@ public final class TreeTest {
         told(turned, Stories.MANAGER, 0, 0, 0, -1);
     }
 
+    /** Two or three CABLES between two NODES: neither has "exactly one open CABLE". */
+    private static void loopedByTwoCables() {
+        SerialBus bus = Stories.chain(2);
+        bus.plug(0, 0, 1, 1);
+        bus.reset(0, 1, false, true);
+        bus.tick(1);
+        Due.is("two cables: looped", bus.count(7), 1);
+        told(bus, Stories.ROOT, -1, -1);
+        told(bus, Stories.PLACE, 0, 0);
+        bus.plug(0, 2, 1, 2);
+        bus.tick(1);
+        Due.is("three cables: looped", bus.count(7), 1);
+        bus.unplug(0, 2);
+        bus.unplug(0, 1);
+        bus.tick(1);
+        Due.is("one cable: not looped", bus.count(7), 0);
+        told(bus, Stories.ROOT, 0, 0);
+        told(bus, Stories.MANAGER, 0, 0);
+    }
+
+    /** The place goes on from RESET to RESET, 24 further in each; other BITS end it. */
+    private static void loopedByTheSameBits() {
+        SerialBus bus = Stories.pair(0x1234, 0x1234);
+        told(bus, Stories.PLACE, 8, 8);
+        bus.plug(1, 2, 5, 0);
+        bus.unplug(1, 2);
+        bus.tick(1);
+        Due.is("looped again", bus.count(7), 1);
+        told(bus, Stories.PLACE, 0, 0);
+        bus.reset(1, 0x1235, false, false);
+        bus.tick(1);
+        Due.is("not looped", bus.count(7), 0);
+        told(bus, Stories.ROOT, 1, 1);
+        told(bus, Stories.PLACE, 1, 1);
+    }
+
     private static void loopedByCables() {
         SerialBus ring = Stories.chain(3);
         ring.plug(2, 1, 0, 0);
@@ -182,33 +232,5 @@ public final class TreeTest {
         ring.tick(1);
         told(ring, Stories.MANAGER, 3, 3, 3, 3);
         Due.is("not looped any more", ring.count(7), 0);
-    }
-
-    private static void resetOfABus() {
-        SerialBus bus = Stories.threeManaged(40, 0);
-        bus.talk(1, 2, 10);
-        bus.tick(1);
-        bus.ask(0, 2, Stories.WRITE, 3, 0, 33);
-        bus.ask(1, 2, Stories.WRITE, 4, 0, 44);
-        bus.ask(2, 2, Stories.READ, 0, 0, 0);
-        bus.ask(2, 1, Stories.READ, 0, 0, 0);
-        bus.tick(2);
-        Due.is("2 is used", bus.about(2, Stories.USED), 1);
-        Due.is("2 has packets", bus.about(2, Stories.PACKETS) > 0, true);
-        bus.reset(1, 0, false, false);
-        bus.tick(1);
-        told(bus, Stories.PACKETS, 0, 0, 0);
-        told(bus, Stories.WAITING, 0, 0, 0);
-        told(bus, Stories.USED, 0, 0, 0);
-        told(bus, Stories.HEARD, 1, 0, 1);
-        Due.is("word 6", bus.word(0, 6), 100);
-        Due.is("word 7", bus.word(0, 7), -1);
-        Due.is("other words stay", bus.word(2, 4), 44);
-        Due.is("end of what was sent", bus.ended(2, 0), Stories.RESET);
-        Due.is("end of what was not sent", bus.ended(2, 1), Stories.RESET);
-        bus.ask(0, 0, Stories.WRITE, 6, 0, 0);
-        bus.ask(0, 0, Stories.WRITE, 7, 0, 0);
-        bus.tick(10);
-        Due.is("the talk stays", bus.about(0, Stories.HEARD), 2);
     }
 }

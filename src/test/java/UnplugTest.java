@@ -2,9 +2,12 @@
 public final class UnplugTest {
     public static void main(String[] args) {
         answersTheOtherEnd();
+        freesEveryPort();
         partsTheBus();
         leavesOneBusOverAnotherCable();
-        refuses();
+        theLastCableLeavesNodesAlone();
+        refusesPorts();
+        refusesFreePorts();
         Due.finish();
     }
 
@@ -19,6 +22,21 @@ public final class UnplugTest {
         Due.fails("the other end is free, too", Due.STATE, () -> bus.unplug(9, 0));
         Due.fails("and so is this", Due.STATE, () -> bus.unplug(4, 0));
         Due.is("both can be used again", bus.plug(9, 0, 4, 0), 1);
+    }
+
+    /** "PORT p": 0 .. 2, at the first NODE and at the last; the other CABLES stay. */
+    private static void freesEveryPort() {
+        for (int port = 0; port < 3; port++) {
+            for (int end = 0; end < 12; end += 11) {
+                SerialBus bus = new SerialBus();
+                for (int p = 0; p < 3; p++) {
+                    bus.plug(0, p, 11, p);
+                }
+                Due.is("unplug at " + end, bus.unplug(end, port), 11 - end);
+                Due.is("two are left", bus.count(0), 2);
+                Due.is("the same port again", bus.plug(end, port, 11 - end, port), 3);
+            }
+        }
     }
 
     private static void partsTheBus() {
@@ -51,17 +69,42 @@ public final class UnplugTest {
         Due.is("root", bus.about(0, Stories.ROOT), 1);
     }
 
-    private static void refuses() {
-        for (int no : Due.NO_NODES) {
-            nothing("unplug of a " + no, Due.NO_NODE, no, 0);
-            nothing("unplug: no node before no port", Due.NO_NODE, no, 3);
-        }
-        int[] noPorts = {-1, 3, Integer.MIN_VALUE, Integer.MAX_VALUE};
-        for (int no : noPorts) {
+    /** "a NODE without CABLES is one alone", also if it had some. */
+    private static void theLastCableLeavesNodesAlone() {
+        SerialBus bus = Stories.pair(1, 0);
+        Due.is("one bus", bus.count(1), 11);
+        bus.unplug(1, 0);
+        Due.is("cables", bus.count(0), 0);
+        Due.is("buses", bus.count(1), 12);
+        bus.tick(1);
+        Due.is("both are reset", bus.count(3), 13);
+        Due.is("root of 0", bus.about(0, Stories.ROOT), 0);
+        Due.is("root of 1", bus.about(1, Stories.ROOT), 1);
+        Due.is("parent of 1", bus.about(1, Stories.PARENT), -1);
+        Due.is("number of 1", bus.about(1, Stories.NUMBER), 0);
+    }
+
+    /** "IllegalArgumentException: no such PORT." */
+    private static void refusesPorts() {
+        for (int no : Due.outside(0, 2)) {
             nothing("unplug of p " + no, Due.ARGUMENT, 1, no);
+            nothing("unplug of p " + no + " of a node without cables", Due.ARGUMENT, 10, no);
+            nothing("unplug of p " + no + " of the first node", Due.ARGUMENT, 0, no);
+            nothing("unplug of p " + no + " of the last node", Due.ARGUMENT, 11, no);
         }
+    }
+
+    /** "IllegalStateException: it is free." */
+    private static void refusesFreePorts() {
         nothing("unplug of a free port", Due.STATE, 1, 2);
         nothing("unplug at a node without cables", Due.STATE, 10, 0);
+        Due.failsAndChangesNothing("unplug twice", Due.STATE, UnplugTest::unplugged, bus -> bus.unplug(1, 0));
+        Due.failsAndChangesNothing("from both ends", Due.STATE, UnplugTest::unplugged, bus -> bus.unplug(0, 1));
+    }
+
+    private static void unplugged(SerialBus bus) {
+        Stories.mixed(bus);
+        bus.unplug(1, 0);
     }
 
     private static void nothing(String what, Class<? extends RuntimeException> due, int a, int p) {

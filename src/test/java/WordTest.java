@@ -2,8 +2,10 @@
 public final class WordTest {
     public static void main(String[] args) {
         tellsEveryWord();
+        tellsAnyInt();
         aResetChangesWordsSixAndSeven();
-        refuses();
+        changesNothing();
+        refusesOthers();
         Due.finish();
     }
 
@@ -26,6 +28,23 @@ public final class WordTest {
         Due.is("word 6 of another node", bus.word(1, 6), 100);
     }
 
+    /** "WORDS 0 .. 7, ints", of the first NODE and of the last. */
+    private static void tellsAnyInt() {
+        int[] anyInts = {Integer.MIN_VALUE, -1, 0, Integer.MAX_VALUE};
+        for (int any : anyInts) {
+            for (int word = 0; word < 8; word++) {
+                SerialBus bus = new SerialBus();
+                bus.tick(1);
+                bus.ask(0, 0, Stories.WRITE, word, 0, any);
+                bus.ask(11, 11, Stories.WRITE, word, 0, any);
+                bus.tick(1);
+                Due.is("word(0, " + word + ")", bus.word(0, word), any);
+                Due.is("word(11, " + word + ")", bus.word(11, word), any);
+            }
+        }
+    }
+
+    /** "WORDS 6 and 7 are 100 and -1" after a RESET; the others stay. */
     private static void aResetChangesWordsSixAndSeven() {
         SerialBus bus = written();
         bus.reset(0, 0, false, false);
@@ -38,18 +57,25 @@ public final class WordTest {
         Due.is("word 7", bus.word(2, 7), -1);
     }
 
-    private static void refuses() {
-        int[] noWords = {-1, 8, Integer.MIN_VALUE, Integer.MAX_VALUE};
-        for (int no : Due.NO_NODES) {
-            nothing("word of " + no, Due.NO_NODE, no, 0);
-            nothing("word: no node before no word", Due.NO_NODE, no, 8);
-        }
-        for (int no : noWords) {
-            nothing("word " + no, Due.ARGUMENT, 1, no);
+    private static void changesNothing() {
+        Due.tellsAndChangesNothing("word", Stories::mixed, bus -> {
+            for (int word = 0; word < 8; word++) {
+                bus.word(0, word);
+                bus.word(4, word);
+            }
+        });
+    }
+
+    /** "IllegalArgumentException: another w." */
+    private static void refusesOthers() {
+        for (int no : Due.outside(0, 7)) {
+            nothing("word " + no, 1, no);
+            nothing("word " + no + " of the first node", 0, no);
+            nothing("word " + no + " of the last node", 11, no);
         }
     }
 
-    private static void nothing(String what, Class<? extends RuntimeException> due, int a, int w) {
-        Due.failsAndChangesNothing(what, due, Stories::mixed, bus -> bus.word(a, w));
+    private static void nothing(String what, int a, int w) {
+        Due.failsAndChangesNothing(what, Due.ARGUMENT, Stories::mixed, bus -> bus.word(a, w));
     }
 }
