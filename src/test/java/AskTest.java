@@ -163,7 +163,27 @@ public final class AskTest {
         Due.failsAndChangesNothing(
                 "the queue is full", Due.UNSUPPORTED, Stories::fullOfThree, b -> b.ask(0, 1, 0, 0, 0, 0));
         Due.failsAndChangesNothing(
+                "full, its label has ended", Due.UNSUPPORTED, AskTest::fullWithAnEnd, b -> b.ask(0, 1, 0, 0, 0, 0));
+        Due.failsAndChangesNothing(
                 "full, to itself", Due.UNSUPPORTED, Stories::fullOfThree, b -> b.ask(0, 0, 1, 7, 0, 0));
+    }
+
+    /** As Stories.fullOfThree, and NODE 0's LABEL 3 has ended. */
+    private static void fullWithAnEnd(SerialBus bus) {
+        for (int node = 0; node < 4; node++) {
+            bus.plug(node, 1, node + 1, 0);
+        }
+        bus.reset(4, 0, true, false);
+        bus.tick(1);
+        for (int label = 0; label < 4; label++) {
+            bus.ask(0, 9, Stories.READ, 0, 0, 0);
+        }
+        bus.tick(8);
+        for (int node = 0; node < 3; node++) {
+            bus.ask(0, 0, Stories.READ, 0, 0, 0);
+            bus.ask(1 + node, 0, Stories.READ, 0, 0, 0);
+        }
+        bus.tick(3);
     }
 
     /** Node before argument before state before operation. NodeNumbersTest has the first. */

@@ -163,15 +163,21 @@ public final class BusyTest {
         Due.is("the next of 1", bus.ended(1, 1), Stories.NOBODY);
     }
 
-    /** The 4 times are those of one REQUEST, not of its LABEL. */
+    /** The 4 times are those of one REQUEST, not of its LABEL: 1 fills the room that 0 gets. */
     private static void aNewRequestBeginsAnew() {
         SerialBus bus = Stories.busy();
-        Due.is("the old one", bus.ended(1, 1), Stories.BUSY);
+        bus.tick(1);
+        Due.is("the old one", bus.ended(2, 1), Stories.BUSY);
+        bus.ask(1, 0, Stories.READ, 0, 0, 0);
+        Due.is("the label again", bus.ask(2, 0, Stories.WRITE, 4, 0, 9), 1);
+        int sent = bus.count(4);
+        bus.tick(4);
+        Due.is("0, 1 and 2 have sent", bus.count(4), sent + 3);
         Due.is("0 is full", bus.about(0, Stories.PACKETS), 6);
-        Due.is("the label again", bus.ask(1, 0, Stories.WRITE, 4, 0, 9), 1);
-        Due.is("it waits", bus.ended(1, 1), Stories.WAITS);
+        Due.is("2's packet is back", bus.about(2, Stories.PACKETS), 1);
+        Due.is("it waits", bus.ended(2, 1), Stories.WAITS);
         bus.tick(30);
-        Due.is("it is done", bus.ended(1, 1), Stories.DONE);
+        Due.is("it is done", bus.ended(2, 1), Stories.DONE);
         Due.is("its work is done", bus.word(0, 4), 9);
     }
 }

@@ -9,6 +9,7 @@ public final class CycleTest {
         onlyTheManagersWordsCount();
         onlyItsOwnBus();
         aManagerAlone();
+        allTwelveTalk();
         noTalkers();
         noManager();
         beginsAnewAfterAReset();
@@ -89,6 +90,14 @@ public final class CycleTest {
     }
 
     private static void onlyTheManagersWordsCount() {
+        SerialBus last = Stories.chain(3);
+        last.reset(2, 0, false, true);
+        last.tick(1);
+        last.ask(2, 2, Stories.WRITE, 6, 0, 0);
+        last.ask(2, 2, Stories.WRITE, 7, 0, 0);
+        last.talk(1, 0, 10);
+        last.tick(8);
+        Due.is("the manager need not be the least node", last.count(5), 1);
         SerialBus bus = Stories.threeManaged();
         bus.ask(1, 1, Stories.WRITE, 6, 0, 0);
         bus.ask(1, 1, Stories.WRITE, 7, 0, 0);
@@ -117,6 +126,25 @@ public final class CycleTest {
         bus.tick(8);
         Due.is("it sends", bus.count(5), 1);
         heard("nobody hears it", bus, 0, 0, 0, 0, 0);
+    }
+
+    /** The last NUMBER, too, may just fit. */
+    private static void allTwelveTalk() {
+        SerialBus bus = Stories.chain(12);
+        bus.reset(6, 1, false, true);
+        bus.tick(1);
+        bus.ask(6, 6, Stories.WRITE, 6, 0, 100 - 12 * 8);
+        bus.ask(6, 6, Stories.WRITE, 7, 0, 0);
+        for (int node = 0; node < 12; node++) {
+            bus.talk(node, 31 - node, 8);
+        }
+        bus.tick(8);
+        Due.is("twelve send", bus.count(5), 12);
+        heard("all but its own", bus, 11, 11, 11, 11, 11, 11, 11, 11, 11, 11, 11, 11);
+        bus.talk(0, 31, 9);
+        bus.tick(8);
+        Due.is("the last does not fit", bus.count(5), 23);
+        Due.is("6 has sent no more", bus.about(6, Stories.HEARD) - bus.about(5, Stories.HEARD), 1);
     }
 
     /** Nobody sends in such a CYCLE, and no SLOT is done instead. */

@@ -6,6 +6,7 @@ public final class LateTest {
         otherEndsInTheVeryTick();
         itsPacketGoesWhereverItStands();
         allFourAtOnce();
+        ofEveryNode();
         aBusyPacketGoes();
         theAnswerStays();
         theAnswerInItsOwnQueueStays();
@@ -104,6 +105,26 @@ public final class LateTest {
         Due.is("packets of 0", bus.about(0, Stories.PACKETS), 0);
         Due.is("packets of 1", bus.about(1, Stories.PACKETS), 0);
         Due.is("nothing was sent", bus.count(4), 0);
+    }
+
+    private static void ofEveryNode() {
+        SerialBus bus = new SerialBus();
+        for (int node = 0; node < 12; node += 2) {
+            bus.plug(node, 0, node + 1, 0);
+        }
+        bus.tick(1);
+        bus.time(3);
+        for (int node = 0; node < 12; node++) {
+            bus.ask(node, node, Stories.READ, 0, 0, 0);
+        }
+        bus.tick(2);
+        for (int node = 0; node < 12; node++) {
+            Due.is("before, node " + node, bus.ended(node, 0), Stories.WAITS);
+        }
+        bus.tick(1);
+        for (int node = 0; node < 12; node++) {
+            Due.is("late, node " + node, bus.ended(node, 0), Stories.LATE);
+        }
     }
 
     /** NODE 3 is BUSY once; its PACKET, back in the QUEUE, goes before it is sent again. */

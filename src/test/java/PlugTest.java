@@ -7,6 +7,7 @@ public final class PlugTest {
         joinsEveryPort();
         joinsTheSameNodesThreeTimes();
         joinsBuses();
+        joinsOverAllOthers();
         makesBothBusesDirty();
         eighteenCablesAreAll();
         refusesPorts();
@@ -57,6 +58,23 @@ public final class PlugTest {
         Due.is("the pairs are one bus", bus.count(1), 9);
         bus.plug(3, 1, 11, 1);
         Due.is("a ring is one bus still", bus.count(1), 9);
+    }
+
+    /** "directly or over others": eleven CABLES lie between the ends, in whatever order NODES come. */
+    private static void joinsOverAllOthers() {
+        int[] steps = {1, 5, 7, 11};
+        for (int step : steps) {
+            for (int first = 0; first < 12; first++) {
+                SerialBus bus = new SerialBus();
+                for (int i = 0; i < 11; i++) {
+                    bus.plug((first + i * step) % 12, 2, (first + (i + 1) * step) % 12, 0);
+                }
+                Due.is("one bus from " + first + " by " + step, bus.count(1), 1);
+                bus.reset(first, 0, true, false);
+                bus.tick(1);
+                Due.is("one reset", bus.count(3), 1);
+            }
+        }
     }
 
     private static void makesBothBusesDirty() {

@@ -81,17 +81,31 @@ public final class ResetTest {
 
     /** "its BUS is DIRTY": only the NUMBERS go at once, all else in the RESET. */
     private static void changesNothingElseBeforeTheTick() {
-        SerialBus bus = Stories.threeManaged(40, 0);
-        bus.ask(0, 1, Stories.READ, 0, 0, 0);
-        bus.ask(1, 2, Stories.READ, 0, 0, 0);
-        bus.tick(2);
-        String before = told(bus);
-        bus.reset(1, 0xFFFF, true, true);
-        Due.is("before the tick", told(bus), before);
-        Due.is("but the number", bus.about(1, Stories.NUMBER), -1);
-        bus.tick(1);
-        Due.is("in the tick the packets go", bus.about(2, Stories.PACKETS), 0);
-        Due.is("and the manager is found", bus.about(0, Stories.MANAGER), 1);
+        for (int node = 0; node < 3; node++) {
+            SerialBus bus = atWork();
+            String before = told(bus);
+            bus.reset(node, 0xFFFF, true, true);
+            Due.is("before the tick, reset of " + node, told(bus), before);
+            for (int other = 0; other < 3; other++) {
+                Due.is("but the number of " + other, bus.about(other, Stories.NUMBER), -1);
+            }
+            bus.tick(1);
+            for (int other = 0; other < 3; other++) {
+                Due.is("in the tick the packets go", bus.about(other, Stories.PACKETS), 0);
+                Due.is("the words are as at first", bus.word(other, 6), 100);
+            }
+        }
+    }
+
+    /** NODES 0 .. 2 have all sent once, to themselves: they have WORD 6 changed and PACKETS left. */
+    private static SerialBus atWork() {
+        SerialBus bus = Stories.threeManaged();
+        for (int node = 0; node < 3; node++) {
+            bus.ask(node, node, Stories.WRITE, 6, 0, node);
+            bus.ask(node, 9, Stories.READ, 0, 0, 0);
+        }
+        bus.tick(3);
+        return bus;
     }
 
     private static String told(SerialBus bus) {
@@ -101,8 +115,9 @@ public final class ResetTest {
                 text.append(bus.about(node, what)).append(' ');
             }
             text.append(bus.word(node, 6)).append(' ').append(bus.word(node, 7)).append(' ');
+            text.append(bus.ended(node, 0)).append(' ').append(bus.ended(node, 1)).append(' ');
         }
-        return text.append(bus.ended(0, 0)).append(' ').append(bus.ended(1, 0)).toString();
+        return text.toString();
     }
 
     private static void theLastOfSeveralCounts() {

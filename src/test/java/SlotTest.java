@@ -2,6 +2,7 @@
 public final class SlotTest {
     public static void main(String[] args) {
         turnsAreFair();
+        whoAnswersIsUsedToo();
         nothingToSend();
         usedIsTakenOnlyIfNeeded();
         usedIsTakenInItsOwnBus();
@@ -32,6 +33,16 @@ public final class SlotTest {
             }
         }
         Due.is("used taken once", bus.count(6), 1);
+    }
+
+    private static void whoAnswersIsUsedToo() {
+        SerialBus bus = Stories.three();
+        bus.ask(0, 2, Stories.READ, 0, 0, 0);
+        bus.tick(1);
+        Due.is("before", bus.about(2, Stories.USED), 0);
+        bus.tick(1);
+        Due.is("answered", bus.ended(0, 0), Stories.DONE);
+        Due.is("after", bus.about(2, Stories.USED), 1);
     }
 
     /** "but some NODE has PACKETS": if none has, nothing is done. */

@@ -3,6 +3,7 @@ public final class TreeTest {
     public static void main(String[] args) {
         oneNodeAlone();
         leavesAskAsTheRoundBegins();
+        everyNodeAsksOverEveryPort();
         numbersGoByPorts();
         numbersOfADeepTree();
         numbersOfTheLongestChain();
@@ -13,6 +14,7 @@ public final class TreeTest {
         bothHold();
         lastRound();
         managerHasTheGreatestNumber();
+        everyNodeMayBeTheManager();
         loopedByCables();
         loopedByTwoCables();
         loopedByTheSameBits();
@@ -43,6 +45,22 @@ public final class TreeTest {
         told(bus, Stories.PARENT, 1, -1, 1);
         told(bus, Stories.ROOT, 1, 1, 1, 3);
         told(bus, Stories.PLACE, 0, 0, 0);
+    }
+
+    /** Both ends ASK in ROUND 1, so each takes one of its BITS. */
+    private static void everyNodeAsksOverEveryPort() {
+        for (int node = 0; node < 12; node++) {
+            for (int port = 0; port < 3; port++) {
+                int other = (node + 5) % 12;
+                SerialBus bus = new SerialBus();
+                bus.plug(node, port, other, 2 - port);
+                bus.reset(other, 1, false, false);
+                bus.tick(1);
+                Due.is("parent of " + node, bus.about(node, Stories.PARENT), other);
+                Due.is("place of " + node, bus.about(node, Stories.PLACE), 1);
+                Due.is("place of " + other, bus.about(other, Stories.PLACE), 1);
+            }
+        }
     }
 
     private static void numbersGoByPorts() {
@@ -178,6 +196,18 @@ public final class TreeTest {
         turned.reset(2, 0, false, true);
         turned.tick(1);
         told(turned, Stories.MANAGER, 0, 0, 0, -1);
+    }
+
+    private static void everyNodeMayBeTheManager() {
+        for (int manager = 0; manager < 12; manager++) {
+            SerialBus bus = Stories.chain(12);
+            bus.reset(6, 1, false, false);
+            bus.reset(manager, manager == 6 ? 1 : 0, false, true);
+            bus.tick(1);
+            for (int node = 0; node < 12; node++) {
+                Due.is("manager of " + node, bus.about(node, Stories.MANAGER), manager);
+            }
+        }
     }
 
     /** Two or three CABLES between two NODES: neither has "exactly one open CABLE". */
