@@ -74,8 +74,6 @@ public final class AskTest {
         Due.is("swap that fits", answer(Stories.SWAP, 6, 100, -5), "100 -5");
         Due.is("swap that does not", answer(Stories.SWAP, 6, 99, -5), "100 100");
         Due.is("swap of word 0", answer(Stories.SWAP, 0, 0, Integer.MIN_VALUE), "0 -2147483648");
-        Due.is("write any int", answer(Stories.WRITE, 0, Integer.MIN_VALUE, Integer.MAX_VALUE), "0 2147483647");
-        Due.is("read with any ints", answer(Stories.READ, 6, Integer.MAX_VALUE, Integer.MIN_VALUE), "100 100");
     }
 
     private static String answer(int work, int w, int x, int v) {
@@ -138,7 +136,7 @@ public final class AskTest {
         Due.failsAndChangesNothing(
                 "all labels wait", Due.STATE, Stories::allWait, bus -> bus.ask(7, 7, 1, 5, 0, 1));
         Due.failsAndChangesNothing(
-                "all wait, one is sent", Due.STATE, AskTest::threeInTheQueue, bus -> bus.ask(1, 0, 0, 0, 0, 0));
+                "one is sent", Due.STATE, AskTest::threeInTheQueue, bus -> bus.ask(1, 0, 0, 0, 0, 0));
     }
 
     private static void threeInTheQueue(SerialBus bus) {
@@ -163,7 +161,7 @@ public final class AskTest {
         Due.failsAndChangesNothing(
                 "the queue is full", Due.UNSUPPORTED, Stories::fullOfThree, b -> b.ask(0, 1, 0, 0, 0, 0));
         Due.failsAndChangesNothing(
-                "full, its label has ended", Due.UNSUPPORTED, AskTest::fullWithAnEnd, b -> b.ask(0, 1, 0, 0, 0, 0));
+                "full, an end", Due.UNSUPPORTED, AskTest::fullWithAnEnd, b -> b.ask(0, 1, 0, 0, 0, 0));
         Due.failsAndChangesNothing(
                 "full, to itself", Due.UNSUPPORTED, Stories::fullOfThree, b -> b.ask(0, 0, 1, 7, 0, 0));
     }

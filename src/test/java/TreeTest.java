@@ -155,7 +155,10 @@ public final class TreeTest {
         told(bus, Stories.PLACE, 4, 4);
     }
 
-    /** "or after 24 ROUNDS": the middle of a chain of 12, its ends with HOLD, takes BITS in ROUNDS 10 to 24. */
+    /**
+     * "or after 24 ROUNDS": the middle of a chain of 12, its ends with HOLD, takes BITS in ROUNDS 10
+     * to 24.
+     */
     private static SerialBus slowChain(int bits) {
         SerialBus bus = Stories.chain(12);
         bus.reset(0, 0, true, false);

@@ -98,8 +98,8 @@ public final class UnplugTest {
     private static void refusesFreePorts() {
         nothing("unplug of a free port", Due.STATE, 1, 2);
         nothing("unplug at a node without cables", Due.STATE, 10, 0);
-        Due.failsAndChangesNothing("unplug twice", Due.STATE, UnplugTest::unplugged, bus -> bus.unplug(1, 0));
-        Due.failsAndChangesNothing("from both ends", Due.STATE, UnplugTest::unplugged, bus -> bus.unplug(0, 1));
+        Due.failsAndChangesNothing("twice", Due.STATE, UnplugTest::unplugged, bus -> bus.unplug(1, 0));
+        Due.failsAndChangesNothing("both ends", Due.STATE, UnplugTest::unplugged, bus -> bus.unplug(0, 1));
     }
 
     private static void unplugged(SerialBus bus) {

@@ -154,9 +154,11 @@ public final class ValueTest {
         nothing("value of a waiting one", Due.STATE, 2, 1);
         for (int label = 0; label < 4; label++) {
             int l = label;
-            Due.failsAndChangesNothing("value of label " + l, Due.STATE, Stories::allWait, bus -> bus.value(7, l));
+            Due.failsAndChangesNothing(
+                    "value of label " + l, Due.STATE, Stories::allWait, bus -> bus.value(7, l));
         }
-        Due.failsAndChangesNothing("value of one that is sent", Due.STATE, ValueTest::sent, bus -> bus.value(1, 0));
+        Due.failsAndChangesNothing(
+                "value of one that is sent", Due.STATE, ValueTest::sent, bus -> bus.value(1, 0));
     }
 
     private static void sent(SerialBus bus) {
