@@ -1,3 +1,7 @@
+import java.util.ArrayList;
+import java.util.LinkedHashMap;
+import java.util.List;
+import java.util.Map;
 import java.util.function.Consumer;
 import java.util.function.IntSupplier;
 
@@ -131,26 +135,42 @@ final class Due {
         }
     }
 
-    static String picture(SerialBus bus) {
-        StringBuilder text = new StringBuilder();
+    /** All that can be told at once, by the call that tells it. */
+    private static Map<String, String> told(SerialBus bus) {
+        Map<String, String> told = new LinkedHashMap<>();
         for (int what = 0; what < 8; what++) {
-            text.append(bus.count(what)).append(' ');
+            told.put("count(" + what + ")", String.valueOf(bus.count(what)));
         }
         for (int node = 0; node < 12; node++) {
-            text.append("| ");
+            int a = node;
             for (int what = 0; what < 9; what++) {
-                text.append(bus.about(node, what)).append(' ');
+                told.put("about(" + a + ", " + what + ")", String.valueOf(bus.about(a, what)));
             }
             for (int word = 0; word < 8; word++) {
-                text.append(bus.word(node, word)).append(' ');
+                told.put("word(" + a + ", " + word + ")", String.valueOf(bus.word(a, word)));
             }
             for (int label = 0; label < 4; label++) {
-                int a = node;
                 int l = label;
-                text.append(answer(() -> bus.ended(a, l))).append(' ');
+                told.put("ended(" + a + ", " + l + ")", answer(() -> bus.ended(a, l)));
             }
         }
-        return text.toString();
+        return told;
+    }
+
+    static String picture(SerialBus bus) {
+        return told(bus).toString();
+    }
+
+    /** What the second tells otherwise than the first, with the second's answers. */
+    static List<String> changes(SerialBus before, SerialBus after) {
+        List<String> changes = new ArrayList<>();
+        Map<String, String> old = told(before);
+        told(after).forEach((call, answer) -> {
+            if (!answer.equals(old.get(call))) {
+                changes.add(call + "=" + answer);
+            }
+        });
+        return changes;
     }
 
     static void finish() {

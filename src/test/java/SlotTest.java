@@ -1,3 +1,5 @@
+import java.util.List;
+
 /** The terms SLOT and PACKETS; BusyTest and LateTest have the rest of them. */
 public final class SlotTest {
     public static void main(String[] args) {
@@ -49,10 +51,7 @@ public final class SlotTest {
     private static void nothingToSend() {
         SerialBus bus = Stories.three();
         bus.tick(1);
-        String[] after = Due.picture(bus).split(" ");
-        after[2] = "1";
-        String before = Due.picture(Stories.three()).trim();
-        Due.is("all but the clock", String.join(" ", after), before);
+        Due.is("the clock alone", Due.changes(Stories.three(), bus), List.of("count(2)=2"));
     }
 
     private static void usedIsTakenOnlyIfNeeded() {

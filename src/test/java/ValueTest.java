@@ -1,3 +1,4 @@
+import java.util.List;
 import java.util.function.Supplier;
 
 /** Promise 10. */
@@ -82,16 +83,16 @@ public final class ValueTest {
     }
 
     private static void changesOnlyTheLabel() {
-        freesOnly("done", ValueTest::allDone, 0, 1, "0", "100");
+        freesOnly("done", ValueTest::allDone, 0, 1, Stories.DONE, "100");
     }
 
     /** "UnsupportedOperationException: it ended else (it is free then, too ..)": all four ways. */
     private static void anotherEndThrowsAndFreesTheLabel() {
         String thrown = "UnsupportedOperationException";
-        freesOnly("reset", ValueTest::afterReset, 1, 0, "1", thrown);
-        freesOnly("busy", Stories::busy, 1, 1, "2", thrown);
-        freesOnly("nobody", Stories::fourEnds, 0, 1, "3", thrown);
-        freesOnly("late", Stories::fourEnds, 0, 2, "4", thrown);
+        freesOnly("reset", ValueTest::afterReset, 1, 0, Stories.RESET, thrown);
+        freesOnly("busy", Stories::busy, 1, 1, Stories.BUSY, thrown);
+        freesOnly("nobody", Stories::fourEnds, 0, 1, Stories.NOBODY, thrown);
+        freesOnly("late", Stories::fourEnds, 0, 2, Stories.LATE, thrown);
     }
 
     private static SerialBus afterReset() {
@@ -104,23 +105,14 @@ public final class ValueTest {
         return bus;
     }
 
-    /** The picture of the BUS differs by that LABEL alone, which is free then. */
+    /** That LABEL is free then, and nothing else is told otherwise. */
     private static void freesOnly(
-            String what, Supplier<SerialBus> story, int node, int label, String end, String answer) {
-        String[] before = Due.picture(story.get()).split(" ");
+            String what, Supplier<SerialBus> story, int node, int label, int end, String answer) {
         SerialBus bus = story.get();
+        Due.is(what + ", before", story.get().ended(node, label), end);
         Due.is("value of " + what, Due.answer(() -> bus.value(node, label)), answer);
-        String[] after = Due.picture(bus).split(" ");
-        int differ = 0;
-        for (int i = 0; i < before.length; i++) {
-            if (!before[i].equals(after[i])) {
-                differ++;
-                Due.is(what + ", before", before[i], end);
-                Due.is(what + ", after", after[i], "IllegalStateException");
-            }
-        }
-        Due.is(what + ": all that changes", differ, 1);
-        Due.fails(what + ", free for ended", Due.STATE, () -> bus.ended(node, label));
+        String free = "ended(" + node + ", " + label + ")=IllegalStateException";
+        Due.is(what + ": all that changes", Due.changes(story.get(), bus), List.of(free));
         Due.fails(what + ", free for value", Due.STATE, () -> bus.value(node, label));
     }
 
