@@ -7,6 +7,7 @@ public final class BusyTest {
         fourTimes();
         theFourthTimeMayDo();
         eachPacketHasItsOwnFour();
+        fourTimesEachInTurns();
         goesBehindAllOthers();
         goesBackToAFullQueue();
         aNewRequestBeginsAnew();
@@ -118,6 +119,35 @@ public final class BusyTest {
         bus.tick(30);
         Due.is("label 1 is done", bus.ended(1, 1), Stories.DONE);
         Due.is("label 2 is done", bus.ended(1, 2), Stories.DONE);
+    }
+
+    /**
+     * Two PACKETS of NODE 2 take turns, so that each goes behind another when it is BUSY. Once NODE
+     * 0 sends an ANSWER in each turn, NODE 1 fills the room before 2 can.
+     */
+    private static void fourTimesEachInTurns() {
+        SerialBus bus = Stories.three();
+        bus.time(60);
+        for (int label = 0; label < 4; label++) {
+            bus.ask(0, 0, Stories.READ, 0, 0, 0);
+        }
+        bus.ask(1, 0, Stories.READ, 0, 0, 0);
+        for (int value = 21; value <= 23; value++) {
+            bus.ask(2, 0, Stories.WRITE, 5, 0, value);
+        }
+        bus.tick(16);
+        Due.is("each was sent twice, 0 has room", bus.about(0, Stories.PACKETS), 5);
+        for (int label = 0; label < 4; label++) {
+            bus.ask(1, 0, Stories.READ, 0, 0, 0);
+        }
+        bus.tick(9);
+        Due.is("each was sent three times", bus.about(2, Stories.PACKETS), 2);
+        bus.tick(1);
+        Due.is("the first is busy", bus.ended(2, 1), Stories.BUSY);
+        Due.is("the second waits", bus.ended(2, 2), Stories.WAITS);
+        bus.tick(4);
+        Due.is("the second is busy", bus.ended(2, 2), Stories.BUSY);
+        Due.is("no work was done", bus.word(0, 5), 21);
     }
 
     private static void goesBehindAllOthers() {

@@ -163,4 +163,62 @@ final class Stories {
         bus.tick(17);
         return bus;
     }
+
+    /**
+     * 0 - 1 - 2 and NODE 3 alone, after much has happened: nothing of these four is as at first.
+     * The NUMBERS of 0, 1, 2 are 0, 2, 1; 0 and 1 have HOLD, 0 and 2 are CONTENDERS, so 2 is the
+     * MANAGER. All are USED, no PACKETS are left, and every LABEL has a REQUEST that is DONE. The
+     * CLOCK shows 90.
+     */
+    static void rich(SerialBus bus) {
+        rich(bus, true);
+    }
+
+    /** The same, but nobody has HOLD, and 1 and 2 are CONTENDERS, so 1 is the MANAGER. */
+    static void richWithOtherMarks(SerialBus bus) {
+        rich(bus, false);
+    }
+
+    private static void rich(SerialBus bus, boolean marks) {
+        bus.time(60);
+        bus.plug(0, 1, 1, 0);
+        bus.plug(2, 0, 3, 0);
+        bus.reset(0, 0xA533, marks, marks);
+        bus.reset(1, 0x5A69, marks, !marks);
+        bus.reset(2, 0x6C92, false, true);
+        bus.reset(3, 0x3608, false, false);
+        for (int node = 0; node < 4; node++) {
+            bus.talk(node, 3 + node, 10 + 7 * node);
+        }
+        bus.tick(1);
+        bus.ask(2, 2, WRITE, 6, 0, 0);
+        bus.ask(2, 2, WRITE, 7, 0, 0);
+        bus.tick(8);
+        bus.unplug(2, 0);
+        bus.plug(1, 1, 2, 0);
+        bus.tick(1);
+        for (int word = 0; word < 8; word++) {
+            for (int node = 0; node < 4; node++) {
+                bus.ask(node, node, WRITE, word, 0, word < 7 ? 10 * node + word + 1 : 0xF00 + node);
+            }
+            if (word == 3 || word == 7) {
+                bus.tick(40);
+            }
+        }
+        bus.time(50);
+    }
+
+    /**
+     * To come behind rich: NODES 0 .. 3 have a REQUEST at LABEL 0 that ended with NOBODY, and three
+     * that wait; the first one of NODE 1 is answered by 2. The CLOCK shows 96.
+     */
+    static void atWork(SerialBus bus) {
+        for (int node = 0; node < 4; node++) {
+            bus.ask(node, 9, READ, 0, 0, 0);
+            for (int label = 1; label < 4; label++) {
+                bus.ask(node, node == 3 ? 3 : (node + 1) % 3, READ, label, 0, 0);
+            }
+        }
+        bus.tick(6);
+    }
 }
