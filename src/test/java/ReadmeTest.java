@@ -12,7 +12,6 @@ import java.util.Set;
 import java.util.TreeSet;
 import java.util.regex.Matcher;
 import java.util.regex.Pattern;
-import javax.tools.ToolProvider;
 
 /**
  * Runs the examples of README.md as they stand there: what the comment behind a call begins with is
@@ -31,7 +30,7 @@ public final class ReadmeTest {
     private static final List<String> due = new ArrayList<>();
     private static final Set<String> shown = new TreeSet<>();
 
-    public static void main(String[] args) throws IOException, ReflectiveOperationException {
+    public static void main(String[] args) throws Exception {
         List<String> readme = Files.readAllLines(PROJECT.resolve("README.md"));
         takeExamples(readme);
         everyCallAnswersAsIsSaid();
@@ -88,7 +87,7 @@ public final class ReadmeTest {
                 + " answers.add(e.getClass().getSimpleName()); }";
     }
 
-    private static void everyCallAnswersAsIsSaid() throws IOException, ReflectiveOperationException {
+    private static void everyCallAnswersAsIsSaid() throws Exception {
         List<String> answers = answersOfProgram();
         Due.is("README.md: calls that were made", answers.size(), calls.size());
         for (int i = 0; i < answers.size(); i++) {
@@ -96,15 +95,15 @@ public final class ReadmeTest {
         }
     }
 
-    private static List<String> answersOfProgram() throws IOException, ReflectiveOperationException {
+    private static List<String> answersOfProgram() throws Exception {
         Path folder = Files.createTempDirectory("readme");
         Path source = folder.resolve("Examples.java");
         try {
             Files.writeString(source, "public final class Examples {\n"
                     + "public static void run(java.util.List<String> answers) {\n"
                     + String.join("\n", program) + "\n}\n}\n");
-            int failed = ToolProvider.getSystemJavaCompiler().run(null, null, null,
-                    "-cp", System.getProperty("java.class.path"), "-d", folder.toString(), source.toString());
+            int failed = new ProcessBuilder("javac", "-cp", System.getProperty("java.class.path"),
+                    "-d", folder.toString(), source.toString()).inheritIO().start().waitFor();
             Due.is("README.md: the examples compile", failed, 0);
             return failed == 0 ? run(folder) : List.of();
         } finally {

@@ -27,6 +27,7 @@ public final class TickChangesTest {
             cycle(rich);
             looped(rich);
         }
+        busyBehindTheFull();
         resetOfNodesAlone();
         resetOfABus();
         Due.finish();
@@ -229,6 +230,24 @@ public final class TickChangesTest {
         Changes.only("1 is busy at last, too", longer.andThen(bus -> bus.tick(19)),
                 TickChangesTest::tick, "count(2)=110", "count(4)=81",
                 "about(1, 4)=0", "about(1, 7)=1", "about(1, 8)=1", "ended(1, 1)=2");
+    }
+
+    /**
+     * A chain 0 - .. - 4 with NUMBERS as NODES: 3 fills its QUEUE, and in each turn it sends before 0
+     * is BUSY. So it is USED when 0 sends the fourth time.
+     */
+    private static void busyBehindTheFull() {
+        Changes.told("0 is busy at last", bus -> {
+            Stories.crowded(bus, 0, 0);
+            bus.ask(4, 3, Stories.READ, 0, 0, 0);
+            bus.ask(2, 3, Stories.READ, 0, 0, 0);
+            bus.ask(0, 3, Stories.WRITE, 0, 0, 99);
+            for (int label = 0; label < 4; label++) {
+                bus.ask(3, 3, Stories.READ, 0, 0, 0);
+            }
+            bus.tick(12);
+        }, TickChangesTest::tick, "count(2)=14", "count(4)=10",
+                "about(0, 4)=0", "about(0, 7)=0", "about(0, 8)=1", "ended(0, 0)=2");
     }
 
     /** All NODES ask in a TICK that only takes USED, and are LATE in a CYCLE. */
